@@ -5,6 +5,12 @@ final class Checks {
     }
 
     private int wrong = 0;
+    private String sentence = "";
+
+    /** The checks from here on are for this sentence of the document. */
+    void sentence(String words) {
+        sentence = "[" + words + "] ";
+    }
 
     void due(String what, long got, long want) {
         if (got != want) {
@@ -50,7 +56,7 @@ final class Checks {
     void fail(String line) {
         wrong++;
         if (wrong <= 40) {
-            System.out.println(line);
+            System.out.println(sentence + line);
         }
     }
 
