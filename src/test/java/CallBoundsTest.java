@@ -40,7 +40,7 @@ public final class CallBoundsTest {
 
     private static void newObject() {
         CHECKS.sentence("Promise 1: Creates a pool without pages, at the time 0.");
-        RemoteMemoryPool pool = new RemoteMemoryPool();
+        TestedPool pool = new TestedPool();
         CHECKS.due("time", pool.time(), 0);
         int pages = 0;
         for (int page = 0; page < 30; page++) {
@@ -48,14 +48,14 @@ public final class CallBoundsTest {
         }
         CHECKS.due("pages", pages, 0);
         CHECKS.due("of each status", pool.countStatus(2) + pool.countStatus(1) + pool.countStatus(0) + pool.countStatus(-2), 0);
-        RemoteMemoryPool first = Pools.after("l0,1 s0,1 t600");
-        CHECKS.due("also behind another object", new RemoteMemoryPool().time() + new RemoteMemoryPool().status(0), NONE);
+        TestedPool first = Pools.after("l0,1 s0,1 t600");
+        CHECKS.due("also behind another object", new TestedPool().time() + new TestedPool().status(0), NONE);
         CHECKS.due("which keeps its own", first.time() + first.status(0), 601);
     }
 
     private static void store() {
         CHECKS.sentence("Promise 2: store: page: 0 to 29; value: 0 to 9999");
-        RemoteMemoryPool pool = Pools.after("l0,20 l1,20");
+        TestedPool pool = Pools.after("l0,20 l1,20");
         CHECKS.due("the least of both", pool.store(0, 0), 2);
         CHECKS.due("the greatest of both", pool.store(29, 9999), 2);
         CHECKS.due("their values", pool.read(0) * 10000 + pool.read(29), 9999);
@@ -69,7 +69,7 @@ public final class CallBoundsTest {
     }
 
     private static void storeRefuses() {
-        RemoteMemoryPool pool = Pools.after("l0,1 l1,2 s0,1");
+        TestedPool pool = Pools.after("l0,1 l1,2 s0,1");
         CHECKS.sentence("Promise 2: Throws IndexOutOfBoundsException if there is no such page number");
         for (int page : Pools.NO_PAGES) {
             CHECKS.outOfBounds("page " + page, pool, () -> pool.store(page, 1));
@@ -82,17 +82,17 @@ public final class CallBoundsTest {
         CHECKS.badState("it exists, and another host has room", pool, () -> pool.store(0, 1));
         CHECKS.due("a best host with room for one", pool.store(1, 1), 1);
         CHECKS.badState("no room", pool, () -> pool.store(2, 1));
-        RemoteMemoryPool taken = Pools.after("l0,1 s0,1 l1,1");
+        TestedPool taken = Pools.after("l0,1 s0,1 l1,1");
         CHECKS.badState("the only place is kept for a transfer", taken, () -> taken.store(1, 1));
-        RemoteMemoryPool cut = Pools.after("l0,20 o0");
+        TestedPool cut = Pools.after("l0,20 o0");
         CHECKS.badState("the only host is disconnected", cut, () -> cut.store(1, 1));
-        RemoteMemoryPool recalled = Pools.after("l0,20 s0,1 r0,9");
+        TestedPool recalled = Pools.after("l0,20 s0,1 r0,9");
         CHECKS.badState("the only host is RECALLED", recalled, () -> recalled.store(1, 1));
     }
 
     private static void write() {
         CHECKS.sentence("Promise 3: write: page: 0 to 29; value: 0 to 9999");
-        RemoteMemoryPool pool = Pools.after("l0,20 l1,20 s0,5 s29,5");
+        TestedPool pool = Pools.after("l0,20 l1,20 s0,5 s29,5");
         CHECKS.due("the least of both", pool.write(0, 0), 2);
         CHECKS.due("the greatest of both", pool.write(29, 9999), 2);
         CHECKS.due("their values", pool.read(0) * 10000 + pool.read(29), 9999);
@@ -107,7 +107,7 @@ public final class CallBoundsTest {
     }
 
     private static void writeRefuses() {
-        RemoteMemoryPool pool = Pools.after("l0,1 l1,1 s0,1");
+        TestedPool pool = Pools.after("l0,1 l1,1 s0,1");
         CHECKS.sentence("Promise 3: Throws IndexOutOfBoundsException if there is no such page number");
         for (int page : Pools.NO_PAGES) {
             CHECKS.outOfBounds("page " + page, pool, () -> pool.write(page, 1));
@@ -127,7 +127,7 @@ public final class CallBoundsTest {
     }
 
     private static void read() {
-        RemoteMemoryPool pool = Pools.after("l0,2 l1,2 s0,0 s29,9999");
+        TestedPool pool = Pools.after("l0,2 l1,2 s0,0 s29,9999");
         CHECKS.sentence("Promise 4: read: page: 0 to 29");
         CHECKS.due("the least", pool.read(0), 0);
         CHECKS.due("the greatest", pool.read(29), 9999);
@@ -151,7 +151,7 @@ public final class CallBoundsTest {
     }
 
     private static void remove() {
-        RemoteMemoryPool pool = Pools.after("l0,4 l1,4 s0,1 s29,1 s5,1 s6,1");
+        TestedPool pool = Pools.after("l0,4 l1,4 s0,1 s29,1 s5,1 s6,1");
         CHECKS.sentence("Promise 5: remove: page: 0 to 29");
         CHECKS.due("the least", pool.remove(0), 2);
         CHECKS.due("the greatest", pool.remove(29), 2);
@@ -174,12 +174,12 @@ public final class CallBoundsTest {
 
     private static void lend() {
         CHECKS.sentence("Promise 6: lend: host: 0 to 5; capacity: 1 to 20");
-        RemoteMemoryPool pool = new RemoteMemoryPool();
+        TestedPool pool = new TestedPool();
         CHECKS.due("the least of both", pool.lend(0, 1), 1);
         CHECKS.due("the greatest of both", pool.lend(5, 20), 21);
         CHECKS.due("their room", pool.freeRoom(0) * 100 + pool.freeRoom(5), 120);
         CHECKS.sentence("Promise 6: Returns the sum of the free room of all hosts, before the pool settles.");
-        CHECKS.due("all hosts at their greatest", Pools.does(new RemoteMemoryPool(), "l0,20 l1,20 l2,20 l3,20 l4,20 l5,20"), 120);
+        CHECKS.due("all hosts at their greatest", Pools.does(new TestedPool(), "l0,20 l1,20 l2,20 l3,20 l4,20 l5,20"), 120);
         CHECKS.due("before a transfer takes a place", Pools.after("l0,1 s0,1").lend(1, 1), 1);
         CHECKS.due("after one has taken it", Pools.after("l0,1 s0,1 l1,1").lend(2, 1), 1);
         CHECKS.due("full hosts", Pools.after("l0,1 l1,1 s0,1").lend(2, 7), 7);
@@ -187,7 +187,7 @@ public final class CallBoundsTest {
     }
 
     private static void lendRefuses() {
-        RemoteMemoryPool pool = Pools.after("l0,1 l1,1 s0,1 r1,3");
+        TestedPool pool = Pools.after("l0,1 l1,1 s0,1 r1,3");
         CHECKS.sentence("Promise 6: Throws IndexOutOfBoundsException if there is no such host");
         for (int host : Pools.NO_HOSTS) {
             CHECKS.outOfBounds("host " + host, pool, () -> pool.lend(host, 1));
@@ -210,7 +210,7 @@ public final class CallBoundsTest {
 
     private static void recall() {
         CHECKS.sentence("Promise 7: recall: host: 0 to 5; seconds: 1 to 600");
-        RemoteMemoryPool pool = Pools.after("l0,1 l5,1 s0,1");
+        TestedPool pool = Pools.after("l0,1 l5,1 s0,1");
         CHECKS.due("the least of both", pool.recall(0, 1), 1);
         CHECKS.due("the greatest of both", pool.recall(5, 600), 1);
         CHECKS.due("their deadlines", pool.deadlineIn(0) * 1000 + pool.deadlineIn(5), 1600);
@@ -218,7 +218,7 @@ public final class CallBoundsTest {
         CHECKS.due("none", Pools.after("l0,20").recall(0, 9), 0);
         CHECKS.due("none, though it is the target of a transfer", Pools.after("l0,1 s0,1 l1,1").recall(1, 9), 0);
         CHECKS.due("one, and the target", Pools.after("l0,2 s0,1 s1,1 l1,2 t5").recall(1, 9), 1);
-        RemoteMemoryPool full = Pools.after("l0,20");
+        TestedPool full = Pools.after("l0,20");
         for (int page = 0; page < 20; page++) {
             full.store(page, 1);
         }
@@ -226,7 +226,7 @@ public final class CallBoundsTest {
     }
 
     private static void recallRefuses() {
-        RemoteMemoryPool pool = Pools.after("l0,1 l1,1 s0,1 o1");
+        TestedPool pool = Pools.after("l0,1 l1,1 s0,1 o1");
         CHECKS.sentence("Promise 7: Throws IndexOutOfBoundsException if there is no such host");
         for (int host : Pools.NO_HOSTS) {
             CHECKS.outOfBounds("host " + host, pool, () -> pool.recall(host, 1));
@@ -247,9 +247,9 @@ public final class CallBoundsTest {
     }
 
     private static void disconnect() {
-        RemoteMemoryPool pool = Pools.after("l0,2 l5,2 s0,1 s1,1 l1,1 r5,3");
+        TestedPool pool = Pools.after("l0,2 l5,2 s0,1 s1,1 l1,1 r5,3");
         CHECKS.sentence("Promise 8: disconnect: host: 0 to 5");
-        RemoteMemoryPool ends = Pools.after("l0,1 l3,1 l5,1 o0 o5");
+        TestedPool ends = Pools.after("l0,1 l3,1 l5,1 o0 o5");
         CHECKS.due("the first and the last, no other", ends.isConnected(0) || ends.isConnected(5) || !ends.isConnected(3), false);
         CHECKS.sentence("Promise 8: Returns the number of replicas that the host holds.");
         CHECKS.due("host 0", pool.disconnect(0), 2);
@@ -272,9 +272,9 @@ public final class CallBoundsTest {
     }
 
     private static void reconnect() {
-        RemoteMemoryPool pool = Pools.after("l0,3 l5,3 s0,1 s1,1 s29,1 o0 w0,1 d29");
+        TestedPool pool = Pools.after("l0,3 l5,3 s0,1 s1,1 s29,1 o0 w0,1 d29");
         CHECKS.sentence("Promise 9: reconnect: host: 0 to 5");
-        RemoteMemoryPool ends = Pools.after("l0,1 l3,1 l5,1 o0 o3 o5 c0 c5");
+        TestedPool ends = Pools.after("l0,1 l3,1 l5,1 o0 o3 o5 c0 c5");
         CHECKS.due("the first and the last, no other", ends.isConnected(0) && ends.isConnected(5) && !ends.isConnected(3), true);
         CHECKS.sentence("Promise 9: Returns the number of replicas that are removed by that.");
         CHECKS.due("two of three", pool.reconnect(0), 2);
@@ -283,7 +283,7 @@ public final class CallBoundsTest {
         CHECKS.due("none, for it holds nothing", Pools.after("l5,1 o5").reconnect(5), 0);
         CHECKS.due("none of a page with two copies that it does not hold", Pools.after("l0,1 l1,1 s0,1 l5,1 o5").reconnect(5), 0);
         CHECKS.due("one stale and one too many", Pools.after("l0,2 l1,2 l2,1 s0,1 s1,1 o0 t5 w1,1").reconnect(0), 2);
-        RemoteMemoryPool all = Pools.after("l0,20");
+        TestedPool all = Pools.after("l0,20");
         for (int page = 0; page < 20; page++) {
             all.store(page, 1);
         }
@@ -304,9 +304,9 @@ public final class CallBoundsTest {
     }
 
     private static void crash() {
-        RemoteMemoryPool pool = Pools.after("l0,3 l5,3 s0,1 s1,1 s29,1 o0 w0,1 d29 r5,9");
+        TestedPool pool = Pools.after("l0,3 l5,3 s0,1 s1,1 s29,1 o0 w0,1 d29 r5,9");
         CHECKS.sentence("Promise 10: crash: host: 0 to 5");
-        RemoteMemoryPool ends = Pools.after("l0,1 l3,1 l5,1 x0 x5");
+        TestedPool ends = Pools.after("l0,1 l3,1 l5,1 x0 x5");
         CHECKS.due("the first and the last, no other", ends.mode(0) * 100 + ends.mode(3) * 10 + ends.mode(5), 10);
         CHECKS.sentence("Promise 10: Returns the number of replicas that are removed by that.");
         CHECKS.due("one fresh and two stale ones, LENDING and disconnected", pool.crash(0), 3);
@@ -320,23 +320,23 @@ public final class CallBoundsTest {
         CHECKS.sentence("Promise 10: Throws IllegalStateException if the host is AWAY");
         CHECKS.badState("never LENDING", pool, () -> pool.crash(1));
         CHECKS.badState("crashed already", pool, () -> pool.crash(0));
-        RemoteMemoryPool gone = Pools.after("l0,1 s0,1 r0,2 o0 t2");
+        TestedPool gone = Pools.after("l0,1 s0,1 r0,2 o0 t2");
         CHECKS.badState("AWAY and disconnected", gone, () -> gone.crash(0));
         CHECKS.due("and stays disconnected", gone.isConnected(0), false);
     }
 
     private static void pass() {
         CHECKS.sentence("Promise 11: pass: seconds: 1 to 600");
-        RemoteMemoryPool pool = new RemoteMemoryPool();
+        TestedPool pool = new TestedPool();
         pool.pass(1);
         CHECKS.due("the least", pool.time(), 1);
         pool.pass(600);
         CHECKS.due("the greatest", pool.time(), 601);
         CHECKS.sentence("Promise 11: Returns the number of transfers that are completed, also those by which nothing changes.");
-        CHECKS.due("none", new RemoteMemoryPool().pass(600), 0);
+        CHECKS.due("none", new TestedPool().pass(600), 0);
         CHECKS.due("one by which nothing changes", Pools.after("l0,1 l1,1 l2,1 s0,1 o1 t2 c1").pass(3), 1);
         CHECKS.due("none, for it is cancelled by a deadline", Pools.after("l0,1 s0,1 r0,4 l1,1").pass(600), 0);
-        RemoteMemoryPool each = Pools.after("l0,20");
+        TestedPool each = Pools.after("l0,20");
         for (int page = 0; page < 20; page++) {
             each.store(page, 1);
         }
@@ -346,7 +346,7 @@ public final class CallBoundsTest {
         CHECKS.due("the last", each.pass(600), 1);
         CHECKS.due("none by a later call", each.pass(1), 0);
         CHECKS.sentence("Promise 11: Undoable, as one call.");
-        RemoteMemoryPool undone = Pools.after("l0,2 s0,1 s1,1 l1,2");
+        TestedPool undone = Pools.after("l0,2 s0,1 s1,1 l1,2");
         String before = Observation.of(undone);
         undone.pass(600);
         CHECKS.due("one state", undone.undo(), 4);
@@ -354,13 +354,13 @@ public final class CallBoundsTest {
     }
 
     private static void passRefuses() {
-        RemoteMemoryPool pool = Pools.after("l0,1 s0,1 l1,1");
+        TestedPool pool = Pools.after("l0,1 s0,1 l1,1");
         CHECKS.sentence("Promise 11: Throws IllegalArgumentException if the number of seconds is out of range");
         for (int seconds : NO_SECONDS) {
             CHECKS.badArgument("seconds " + seconds, pool, () -> pool.pass(seconds));
         }
         CHECKS.sentence("Promise 11: Throws IllegalStateException if the current time would become greater than 1000000");
-        RemoteMemoryPool end = Pools.at(999399);
+        TestedPool end = Pools.at(999399);
         CHECKS.due("600 seconds fit", end.pass(600), 0);
         CHECKS.badState("two, where one is left", end, () -> end.pass(2));
         CHECKS.badState("600, where one is left", end, () -> end.pass(600));
@@ -371,7 +371,7 @@ public final class CallBoundsTest {
         CHECKS.due("back from the limit", end.time(), 999999);
         Pools.does(end, "l0,1 s0,1 r0,1");
         CHECKS.due("a deadline at the limit", end.pass(1) + end.mode(0), 0);
-        RemoteMemoryPool due = Pools.at(999995);
+        TestedPool due = Pools.at(999995);
         Pools.does(due, "l0,1 s0,1 l1,1");
         CHECKS.due("a transfer at the limit", due.pass(5), 1);
         CHECKS.due("completed", due.status(0), RemoteMemoryPool.SAFE);
@@ -379,12 +379,12 @@ public final class CallBoundsTest {
 
     private static void setTransferTime() {
         CHECKS.sentence("Promise 12: setTransferTime: seconds: 1 to 60");
-        RemoteMemoryPool pool = new RemoteMemoryPool();
+        TestedPool pool = new TestedPool();
         for (int seconds = 1; seconds <= 60; seconds++) {
             CHECKS.due("seconds " + seconds, pool.setTransferTime(seconds), seconds == 1 ? 5 : seconds - 1);
         }
         CHECKS.sentence("Promise 12: Returns the previous transfer time.");
-        pool = new RemoteMemoryPool();
+        pool = new TestedPool();
         CHECKS.due("at first", pool.setTransferTime(1), 5);
         CHECKS.due("the least", pool.setTransferTime(60), 1);
         CHECKS.due("the greatest", pool.setTransferTime(60), 60);
@@ -393,7 +393,7 @@ public final class CallBoundsTest {
         pool.undo();
         CHECKS.due("undone", pool.setTransferTime(7), 60);
         CHECKS.sentence("Promise 12: Throws IllegalArgumentException if the number of seconds is out of range");
-        RemoteMemoryPool kept = pool;
+        TestedPool kept = pool;
         for (int seconds : new int[] {0, 61, -1, -60, 600, 65537, Integer.MAX_VALUE, Integer.MIN_VALUE}) {
             CHECKS.badArgument("seconds " + seconds, kept, () -> kept.setTransferTime(seconds));
         }
@@ -403,15 +403,15 @@ public final class CallBoundsTest {
     private static void appendText() {
         CHECKS.sentence("Promise 13: character: a character code, 32 to 126");
         for (int character = 32; character <= 126; character++) {
-            CHECKS.due("character " + character, new RemoteMemoryPool().appendText(character), 1);
+            CHECKS.due("character " + character, new TestedPool().appendText(character), 1);
         }
         CHECKS.sentence("Promise 13: Returns the length of the text after the call.");
-        RemoteMemoryPool pool = new RemoteMemoryPool();
+        TestedPool pool = new TestedPool();
         for (int length = 1; length <= 80; length++) {
             CHECKS.due("length", pool.appendText('t'), length);
         }
         CHECKS.sentence("Promise 13: Throws IllegalArgumentException if the character code is out of range");
-        RemoteMemoryPool some = Pools.withText("d");
+        TestedPool some = Pools.withText("d");
         for (int character : new int[] {31, 127, 0, -1, 128, 255, 256 + 's', 65536 + 's', -65536 + 's', Integer.MAX_VALUE, Integer.MIN_VALUE + 's'}) {
             CHECKS.badArgument("character " + character, some, () -> some.appendText(character));
         }
@@ -427,7 +427,7 @@ public final class CallBoundsTest {
 
     private static void clearText() {
         CHECKS.sentence("Promise 14: Empties the text buffer. Returns the length of the text before the call.");
-        RemoteMemoryPool pool = new RemoteMemoryPool();
+        TestedPool pool = new TestedPool();
         CHECKS.due("empty", pool.clearText(), 0);
         Pools.put(pool, "s".repeat(80));
         CHECKS.due("full", pool.clearText(), 80);
@@ -438,7 +438,7 @@ public final class CallBoundsTest {
         Pools.put(pool, "t5");
         CHECKS.due("a shorter text has nothing of the longer", pool.errorPosition(), NONE);
         CHECKS.due("and is run alone", pool.runText() * 10 + pool.time(), 15);
-        Hidden.unchanged(CHECKS, "clearText of an empty text", () -> Pools.after("l0,1 s0,1"), RemoteMemoryPool::clearText);
+        Hidden.unchanged(CHECKS, "clearText of an empty text", () -> Pools.after("l0,1 s0,1"), TestedPool::clearText);
     }
 
     private static void errorPosition() {
@@ -449,18 +449,18 @@ public final class CallBoundsTest {
         CHECKS.due("the first sign", Pools.withText("?").errorPosition(), 0);
         CHECKS.due("the last sign of a full text", Pools.withText("t1;".repeat(26) + "x6").errorPosition(), 79);
         CHECKS.due("behind a full text", Pools.withText("t1;".repeat(26) + "s5").errorPosition(), 80);
-        CHECKS.due("no text", new RemoteMemoryPool().errorPosition(), 0);
+        CHECKS.due("no text", new TestedPool().errorPosition(), 0);
         CHECKS.sentence("Promise 15: Checks the text.");
-        Hidden.unchanged(CHECKS, "a valid text", Terms6To8Test::busy, RemoteMemoryPool::errorPosition);
-        Hidden.unchanged(CHECKS, "half a text", () -> Pools.withText("l0,1;t"), RemoteMemoryPool::errorPosition);
+        Hidden.unchanged(CHECKS, "a valid text", Terms6To8Test::busy, TestedPool::errorPosition);
+        Hidden.unchanged(CHECKS, "half a text", () -> Pools.withText("l0,1;t"), TestedPool::errorPosition);
     }
 
     private static void runText() {
         CHECKS.sentence("Promise 16: Executes the commands of the text in their order, as the methods do.");
-        RemoteMemoryPool pool = Pools.withText("l0,20;l5,20;s0,0;s29,9999;w0,9999;r0,600;o5;c5;d29;l4,1;x4;t599");
+        TestedPool pool = Pools.withText("l0,20;l5,20;s0,0;s29,9999;w0,9999;r0,600;o5;c5;d29;l4,1;x4;t599");
         CHECKS.due("all, with numbers at their ends", pool.runText(), 12);
         CHECKS.due("time", pool.time(), 599);
-        RemoteMemoryPool calls = Pools.after("l0,20 l5,20 s0,0 s29,9999 w0,9999 r0,600 o5 c5 d29 l4,1 x4 t599");
+        TestedPool calls = Pools.after("l0,20 l5,20 s0,0 s29,9999 w0,9999 r0,600 o5 c5 d29 l4,1 x4 t599");
         for (int i = 0; i < 6; i++) {
             pool.setTransferTime(5);
             calls.setTransferTime(5);
@@ -470,14 +470,14 @@ public final class CallBoundsTest {
         CHECKS.due("one command", Pools.withText("l5,1").runText(), 1);
         CHECKS.due("27 commands", Pools.withText("t1;".repeat(26) + "t1").runText(), 27);
         CHECKS.sentence("Promise 16: The text stays in the buffer.");
-        RemoteMemoryPool again = Pools.withText("t600");
+        TestedPool again = Pools.withText("t600");
         CHECKS.due("twice", again.runText() + again.runText() + again.textLength(), 6);
         CHECKS.due("time", again.time(), 1200);
         CHECKS.sentence("Promise 16: Undoable, as one call, also if no command is executed.");
         CHECKS.due("a state for each run", again.savedStates(), 2);
-        RemoteMemoryPool none = Pools.withText("x0;t1");
+        TestedPool none = Pools.withText("x0;t1");
         CHECKS.due("none is executed", none.runText() * 10 + none.savedStates(), 1);
-        RemoteMemoryPool many = Pools.withText("l0,9;s0,1;s1,1;s2,1;l1,9;t7;x0;o1;c1");
+        TestedPool many = Pools.withText("l0,9;s0,1;s1,1;s2,1;l1,9;t7;x0;o1;c1");
         many.runText();
         CHECKS.due("nine commands, one state", many.undo(), 0);
         CHECKS.due("all undone", Observation.of(many), Observation.of(Pools.withText("l0,9;s0,1;s1,1;s2,1;l1,9;t7;x0;o1;c1")));
@@ -490,18 +490,18 @@ public final class CallBoundsTest {
             "s0,1", "s1,1;s2,1;s3,1", "w1,1", "d1", "l0,1", "l1,1", "r1,1", "r2,1", "o1", "o2", "c0", "c2", "x2", "x5",
         };
         for (String text : refused) {
-            RemoteMemoryPool pool = Pools.withText(start + text + ";t9");
+            TestedPool pool = Pools.withText(start + text + ";t9");
             int done = text.length() > 5 ? 6 : 5;
             CHECKS.due(text, pool.runText(), done);
             CHECKS.due(text + ": nothing behind it", pool.time(), 0);
             CHECKS.due(text + ": all before it", pool.isConnected(1), false);
             CHECKS.due(text + ": one state", pool.savedStates(), 1);
         }
-        RemoteMemoryPool cut = Pools.withText("l0,2;s0,1;o0;w0,2;t9");
+        TestedPool cut = Pools.withText("l0,2;s0,1;o0;w0,2;t9");
         CHECKS.due("a write without a copy", cut.runText(), 3);
-        RemoteMemoryPool first = Pools.withText("c0;t9");
+        TestedPool first = Pools.withText("c0;t9");
         CHECKS.due("the first", first.runText(), 0);
-        RemoteMemoryPool last = Pools.withText("t9;c0");
+        TestedPool last = Pools.withText("t9;c0");
         CHECKS.due("the last", last.runText(), 1);
         CHECKS.sentence("Promise 16: Returns the number of commands that are executed.");
         CHECKS.due("twice the same", Pools.withText("l0,1;l0,1;l1,1").runText(), 1);
@@ -509,7 +509,7 @@ public final class CallBoundsTest {
 
     private static void runTextAtTheLimit() {
         CHECKS.sentence("Promise 16: Execution ends before the first command for which the method would throw an exception. (the limit of the time)");
-        RemoteMemoryPool pool = Pools.at(999390);
+        TestedPool pool = Pools.at(999390);
         Pools.put(pool, "t600;t10;t1;l0,1");
         CHECKS.due("to the limit and no second more", pool.runText(), 2);
         CHECKS.due("time", pool.time(), 1000000);
@@ -517,7 +517,7 @@ public final class CallBoundsTest {
         Pools.put(pool, "l0,1;t1");
         CHECKS.due("at the limit", pool.runText(), 1);
         CHECKS.due("time", pool.time(), 1000000);
-        RemoteMemoryPool far = Pools.at(999999);
+        TestedPool far = Pools.at(999999);
         Pools.put(far, "t600");
         CHECKS.due("far beyond", far.runText() + far.time(), 999999);
     }
@@ -525,13 +525,13 @@ public final class CallBoundsTest {
     private static void runTextRefuses() {
         CHECKS.sentence("Promise 16: Throws IllegalStateException if the text is not valid");
         for (String text : new String[] {"", "l0,1;", "l0,1;s", "l0,1;t601", "l0,1;;t1", "l0,1 ", "l0,21", "t1;".repeat(26) + "t0"}) {
-            Hidden.unchanged(CHECKS, "'" + text + "'", () -> Pools.withText(text), IllegalStateException.class, RemoteMemoryPool::runText);
+            Hidden.unchanged(CHECKS, "'" + text + "'", () -> Pools.withText(text), IllegalStateException.class, TestedPool::runText);
         }
     }
 
     private static void undo() {
         CHECKS.sentence("Promise 17: Restores the state that was saved last, and removes it from the saved states.");
-        RemoteMemoryPool pool = Pools.after("l0,1 s0,1 t1 t2 t3 t4");
+        TestedPool pool = Pools.after("l0,1 s0,1 t1 t2 t3 t4");
         CHECKS.sentence("Promise 17: Returns the number of saved states that remain.");
         CHECKS.due("five", pool.undo() * 100 + pool.time(), 506);
         CHECKS.due("four, three, two", pool.undo() * 100 + pool.undo() * 10 + pool.undo(), 432);
@@ -539,10 +539,10 @@ public final class CallBoundsTest {
         CHECKS.due("one", pool.undo(), 1);
         CHECKS.due("the page is not", pool.status(0), NONE);
         CHECKS.due("none", pool.undo(), 0);
-        CHECKS.due("a new pool", Observation.of(pool), Observation.of(new RemoteMemoryPool()));
+        CHECKS.due("a new pool", Observation.of(pool), Observation.of(new TestedPool()));
         CHECKS.sentence("Promise 17: Throws IllegalStateException if there is no saved state");
         CHECKS.badState("all are undone", pool, pool::undo);
-        RemoteMemoryPool fresh = new RemoteMemoryPool();
+        TestedPool fresh = new TestedPool();
         CHECKS.badState("a new object", fresh, fresh::undo);
         fresh.appendText('t');
         fresh.save(0);
@@ -553,13 +553,13 @@ public final class CallBoundsTest {
 
     private static void save() {
         CHECKS.sentence("Promise 18: save: slot: 0 or 1");
-        RemoteMemoryPool ends = Pools.after("t1");
+        TestedPool ends = Pools.after("t1");
         ends.save(0);
         ends.pass(1);
         ends.save(1);
         CHECKS.due("the first and the last", ends.restore(0) * 10 + ends.restore(1), 12);
         CHECKS.sentence("Promise 18: Returns the current time.");
-        RemoteMemoryPool pool = new RemoteMemoryPool();
+        TestedPool pool = new TestedPool();
         CHECKS.due("slot 0 at the time 0", pool.save(0), 0);
         pool.pass(600);
         CHECKS.due("slot 1 at the time 600", pool.save(1), 600);
@@ -570,7 +570,7 @@ public final class CallBoundsTest {
         pool.pass(1);
         CHECKS.due("replaced", pool.restore(0), 601);
         CHECKS.due("the other slot is not", pool.restore(1), 600);
-        RemoteMemoryPool copied = Pools.after("l0,1 s0,7");
+        TestedPool copied = Pools.after("l0,1 s0,7");
         copied.save(0);
         Pools.does(copied, "w0,8 d0 x0");
         copied.restore(0);
@@ -579,14 +579,14 @@ public final class CallBoundsTest {
         for (int slot : NO_SLOTS) {
             CHECKS.outOfBounds("slot " + slot, pool, () -> pool.save(slot));
         }
-        RemoteMemoryPool none = new RemoteMemoryPool();
+        TestedPool none = new TestedPool();
         CHECKS.outOfBounds("slot 32 is not slot 0", none, () -> none.save(32));
         CHECKS.badState("which is empty", none, () -> none.restore(0));
     }
 
     private static void restore() {
         CHECKS.sentence("Promise 19: restore: slot: 0 or 1");
-        RemoteMemoryPool pool = Pools.after("t7");
+        TestedPool pool = Pools.after("t7");
         pool.save(1);
         Pools.does(pool, "l0,1 s0,5 t1");
         pool.save(0);
@@ -612,7 +612,7 @@ public final class CallBoundsTest {
             CHECKS.outOfBounds("slot " + slot, pool, () -> pool.restore(slot));
         }
         CHECKS.sentence("Promise 19: Throws IllegalStateException if the slot is empty");
-        RemoteMemoryPool empty = Pools.after("t1");
+        TestedPool empty = Pools.after("t1");
         CHECKS.badState("slot 0", empty, () -> empty.restore(0));
         CHECKS.badState("slot 1", empty, () -> empty.restore(1));
         empty.save(1);

@@ -28,20 +28,20 @@ final class Checks {
         }
     }
 
-    void outOfBounds(String what, RemoteMemoryPool pool, Call call) {
+    void outOfBounds(String what, TestedPool pool, Call call) {
         refused(what, pool, IndexOutOfBoundsException.class, call);
     }
 
-    void badArgument(String what, RemoteMemoryPool pool, Call call) {
+    void badArgument(String what, TestedPool pool, Call call) {
         refused(what, pool, IllegalArgumentException.class, call);
     }
 
-    void badState(String what, RemoteMemoryPool pool, Call call) {
+    void badState(String what, TestedPool pool, Call call) {
         refused(what, pool, IllegalStateException.class, call);
     }
 
     /** The call throws just this exception, and nothing that a query shows has changed. */
-    private void refused(String what, RemoteMemoryPool pool, Class<?> kind, Call call) {
+    private void refused(String what, TestedPool pool, Class<?> kind, Call call) {
         String before = Observation.of(pool);
         try {
             fail(what + " answered " + call.answer() + ", due is " + kind.getSimpleName());

@@ -72,7 +72,7 @@ public final class FaceTest {
     }
 
     private static void promise01(Checks checks) {
-        RemoteMemoryPool pool = new RemoteMemoryPool();
+        TestedPool pool = new TestedPool();
         checks.due("time", pool.time(), 0);
         for (int page = 0; page < 30; page++) {
             checks.due("status " + page, pool.status(page), RemoteMemoryPool.NONE);
@@ -95,8 +95,8 @@ public final class FaceTest {
         checks.due("rest", pool.restsIn(), 0);
         checks.badState("the first slot is empty", pool, () -> pool.restore(0));
         checks.badState("the second slot is empty", pool, () -> pool.restore(1));
-        checks.due("the transfer time is 5", new RemoteMemoryPool().setTransferTime(9), 5);
-        RemoteMemoryPool other = new RemoteMemoryPool();
+        checks.due("the transfer time is 5", new TestedPool().setTransferTime(9), 5);
+        TestedPool other = new TestedPool();
         other.lend(0, 1);
         checks.due("objects share nothing", pool.mode(0), RemoteMemoryPool.AWAY);
     }

@@ -12,12 +12,12 @@ public final class ForecastTest {
         CHECKS.end();
     }
 
-    private static RemoteMemoryPool lending(int... capacities) {
+    private static TestedPool lending(int... capacities) {
         return PagesTest.lending(capacities);
     }
 
     private static void promise32() {
-        RemoteMemoryPool pool = lending(3, 2);
+        TestedPool pool = lending(3, 2);
         pool.store(0, 1);
         pool.store(1, 1);
         pool.store(2, 1);
@@ -40,8 +40,8 @@ public final class ForecastTest {
     }
 
     private static void promise33() {
-        CHECKS.due("nothing to lose: the first pair", new RemoteMemoryPool().worstPair(), 1);
-        RemoteMemoryPool pool = new RemoteMemoryPool();
+        CHECKS.due("nothing to lose: the first pair", new TestedPool().worstPair(), 1);
+        TestedPool pool = new TestedPool();
         pool.lend(4, 3);
         pool.lend(5, 3);
         pool.store(0, 1);
@@ -53,7 +53,7 @@ public final class ForecastTest {
         pool.crash(2);
         CHECKS.due("page 1 on host 3 alone: with the lowest other host", pool.worstPair(), 3);
         CHECKS.due("saved", pool.savedStates(), 6);
-        RemoteMemoryPool most = lending(1, 1, 3, 3);
+        TestedPool most = lending(1, 1, 3, 3);
         most.store(0, 1);
         most.store(1, 1);
         most.store(2, 1);
@@ -61,7 +61,7 @@ public final class ForecastTest {
     }
 
     private static void promise34() {
-        RemoteMemoryPool pool = lending(3, 3);
+        TestedPool pool = lending(3, 3);
         pool.store(0, 1);
         pool.store(1, 1);
         pool.store(2, 1);
@@ -78,14 +78,14 @@ public final class ForecastTest {
         CHECKS.badArgument("0", pool, () -> pool.lostIn(0));
         CHECKS.badArgument("601", pool, () -> pool.lostIn(601));
         CHECKS.badArgument("-1", pool, () -> pool.lostIn(-1));
-        RemoteMemoryPool already = lending(1);
+        TestedPool already = lending(1);
         already.store(0, 1);
         already.crash(0);
         CHECKS.due("a page that is LOST now counts", already.lostIn(1), 1);
     }
 
     private static void promise35() {
-        RemoteMemoryPool pool = lending(2, 2);
+        TestedPool pool = lending(2, 2);
         pool.store(0, 1);
         pool.store(1, 1);
         CHECKS.due("at rest", pool.restsIn(), 0);
@@ -102,18 +102,18 @@ public final class ForecastTest {
         String before = Observation.of(pool);
         pool.restsIn();
         CHECKS.due("it changes nothing", Observation.of(pool), before);
-        RemoteMemoryPool chain = lending(1);
+        TestedPool chain = lending(1);
         chain.store(0, 1);
         chain.lend(1, 1);
         CHECKS.due("a transfer without a recall", chain.restsIn(), 5);
     }
 
     private static void promise35AtItsEnd() {
-        RemoteMemoryPool recalled = lending(1);
+        TestedPool recalled = lending(1);
         recalled.store(0, 1);
         recalled.recall(0, 600);
         CHECKS.due("the last second", recalled.restsIn(), 600);
-        RemoteMemoryPool busy = lending(11);
+        TestedPool busy = lending(11);
         for (int page = 0; page < 10; page++) {
             busy.store(page, 1);
         }
@@ -124,7 +124,7 @@ public final class ForecastTest {
         busy.disconnect(1);
         busy.reconnect(1);
         CHECKS.due("page 10 has its second copy already", busy.restsIn(), 600);
-        RemoteMemoryPool longer = lending(11);
+        TestedPool longer = lending(11);
         for (int page = 0; page < 11; page++) {
             longer.store(page, 1);
         }

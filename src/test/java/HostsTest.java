@@ -23,12 +23,12 @@ public final class HostsTest {
         CHECKS.end();
     }
 
-    private static RemoteMemoryPool lending(int... capacities) {
+    private static TestedPool lending(int... capacities) {
         return PagesTest.lending(capacities);
     }
 
     private static void promise06() {
-        RemoteMemoryPool pool = new RemoteMemoryPool();
+        TestedPool pool = new TestedPool();
         CHECKS.due("the least capacity", pool.lend(5, 1), 1);
         CHECKS.due("the greatest, in all", pool.lend(0, 20), 21);
         CHECKS.due("lending", pool.mode(5), LENDING);
@@ -45,7 +45,7 @@ public final class HostsTest {
     }
 
     private static void promise06Refuses() {
-        RemoteMemoryPool pool = lending(1);
+        TestedPool pool = lending(1);
         CHECKS.outOfBounds("host -1", pool, () -> pool.lend(-1, 0));
         CHECKS.outOfBounds("host 6", pool, () -> pool.lend(6, 21));
         CHECKS.badArgument("capacity 0", pool, () -> pool.lend(1, 0));
@@ -63,7 +63,7 @@ public final class HostsTest {
     }
 
     private static void promise07() {
-        RemoteMemoryPool pool = lending(3, 3);
+        TestedPool pool = lending(3, 3);
         pool.store(0, 1);
         pool.store(1, 1);
         CHECKS.due("the replicas that it holds", pool.recall(0, 600), 2);
@@ -72,11 +72,11 @@ public final class HostsTest {
         CHECKS.due("no free room", pool.freeRoom(0), 0);
         CHECKS.due("its replicas are copies", pool.status(0), RemoteMemoryPool.SAFE);
         CHECKS.due("undoable", pool.savedStates(), 5);
-        RemoteMemoryPool empty = lending(3);
+        TestedPool empty = lending(3);
         CHECKS.due("nothing held", empty.recall(0, 1), 0);
         CHECKS.due("away at once", empty.mode(0), AWAY);
 
-        RemoteMemoryPool target = lending(2);
+        TestedPool target = lending(2);
         target.store(0, 1);
         target.lend(1, 2);
         target.lend(2, 1);
@@ -95,7 +95,7 @@ public final class HostsTest {
     }
 
     private static void promise07Refuses() {
-        RemoteMemoryPool pool = lending(1, 1);
+        TestedPool pool = lending(1, 1);
         pool.store(0, 1);
         CHECKS.outOfBounds("host -1", pool, () -> pool.recall(-1, 0));
         CHECKS.outOfBounds("host 6", pool, () -> pool.recall(6, 1));
@@ -109,7 +109,7 @@ public final class HostsTest {
     }
 
     private static void promise08() {
-        RemoteMemoryPool pool = lending(2, 2, 2);
+        TestedPool pool = lending(2, 2, 2);
         pool.store(0, 1);
         pool.store(1, 1);
         CHECKS.due("the replicas that it holds", pool.disconnect(0), 2);
@@ -125,13 +125,13 @@ public final class HostsTest {
         CHECKS.badState("away", pool, () -> pool.disconnect(5));
         CHECKS.outOfBounds("host -1", pool, () -> pool.disconnect(-1));
         CHECKS.outOfBounds("host 6", pool, () -> pool.disconnect(6));
-        RemoteMemoryPool source = lending(1);
+        TestedPool source = lending(1);
         source.store(0, 1);
         source.lend(1, 1);
         source.disconnect(0);
         CHECKS.due("cancelled with its source", source.transfer(0), NONE);
         CHECKS.due("undoable", source.savedStates(), 4);
-        RemoteMemoryPool recalled = lending(1);
+        TestedPool recalled = lending(1);
         recalled.store(0, 1);
         recalled.recall(0, 7);
         CHECKS.due("a recalled host too", recalled.disconnect(0), 1);
@@ -146,7 +146,7 @@ public final class HostsTest {
     }
 
     private static void promise09() {
-        RemoteMemoryPool pool = lending(3, 3);
+        TestedPool pool = lending(3, 3);
         pool.store(0, 1);
         pool.store(1, 1);
         pool.store(2, 1);
@@ -162,7 +162,7 @@ public final class HostsTest {
         CHECKS.badState("never disconnected", pool, () -> pool.reconnect(5));
         CHECKS.outOfBounds("host -1", pool, () -> pool.reconnect(-1));
         CHECKS.outOfBounds("host 6", pool, () -> pool.reconnect(6));
-        RemoteMemoryPool recalled = lending(1, 1);
+        TestedPool recalled = lending(1, 1);
         recalled.store(0, 1);
         recalled.recall(0, 100);
         recalled.disconnect(0);
@@ -172,7 +172,7 @@ public final class HostsTest {
     }
 
     private static void promise09KeepsWhatIsNeeded() {
-        RemoteMemoryPool pool = lending(1, 1, 1);
+        TestedPool pool = lending(1, 1, 1);
         pool.store(0, 1);
         pool.disconnect(0);
         pool.pass(5);
@@ -184,13 +184,13 @@ public final class HostsTest {
         pool.disconnect(1);
         CHECKS.due("with one copy elsewhere it stays", pool.reconnect(0), 0);
         CHECKS.due("copies of it", pool.copies(0), 0b101);
-        RemoteMemoryPool last = lending(1, 1, 1);
+        TestedPool last = lending(1, 1, 1);
         last.store(0, 1);
         last.disconnect(1);
         last.pass(5);
         CHECKS.due("too many, with copies on the first host and the last", last.reconnect(1), 1);
         CHECKS.due("copies on both sides", last.copies(0), 0b101);
-        RemoteMemoryPool during = lending(1, 1, 1);
+        TestedPool during = lending(1, 1, 1);
         during.store(0, 1);
         during.disconnect(0);
         during.pass(2);
@@ -203,7 +203,7 @@ public final class HostsTest {
     }
 
     private static void promise10() {
-        RemoteMemoryPool pool = lending(2, 2);
+        TestedPool pool = lending(2, 2);
         pool.store(0, 1);
         pool.store(1, 1);
         pool.disconnect(0);
@@ -226,19 +226,19 @@ public final class HostsTest {
         CHECKS.due("its source crashes", pool.crash(1), 2);
         CHECKS.due("cancelled", pool.transfer(0), NONE);
         CHECKS.due("lost", pool.countStatus(RemoteMemoryPool.LOST), 2);
-        RemoteMemoryPool other = lending(2);
+        TestedPool other = lending(2);
         other.store(0, 1);
         other.lend(1, 2);
         other.lend(2, 1);
         other.pass(1);
         other.crash(2);
         CHECKS.due("a crash elsewhere leaves the transfer", other.transfer(3), 4);
-        RemoteMemoryPool recalled = lending(1, 1);
+        TestedPool recalled = lending(1, 1);
         recalled.store(0, 1);
         recalled.recall(0, 50);
         CHECKS.due("a recalled host too", recalled.crash(0), 1);
         CHECKS.due("it has no deadline any more", recalled.deadlineIn(0), NONE);
-        RemoteMemoryPool gone = lending(1);
+        TestedPool gone = lending(1);
         gone.store(0, 1);
         gone.recall(0, 1);
         gone.disconnect(0);
@@ -247,7 +247,7 @@ public final class HostsTest {
     }
 
     private static void promise23() {
-        RemoteMemoryPool pool = lending(1, 1);
+        TestedPool pool = lending(1, 1);
         pool.store(0, 1);
         pool.recall(1, 3);
         CHECKS.due("lending", pool.mode(0), LENDING);
@@ -262,7 +262,7 @@ public final class HostsTest {
     }
 
     private static void promise24() {
-        RemoteMemoryPool pool = lending(1, 1);
+        TestedPool pool = lending(1, 1);
         pool.disconnect(1);
         CHECKS.due("connected", pool.isConnected(0), true);
         CHECKS.due("disconnected", pool.isConnected(1), false);
@@ -272,7 +272,7 @@ public final class HostsTest {
     }
 
     private static void promise25And26() {
-        RemoteMemoryPool pool = lending(4, 3);
+        TestedPool pool = lending(4, 3);
         pool.store(0, 1);
         pool.store(1, 1);
         CHECKS.due("used by replicas", pool.usedRoom(0), 2);
@@ -301,7 +301,7 @@ public final class HostsTest {
     }
 
     private static void promise27() {
-        RemoteMemoryPool pool = lending(1, 1);
+        TestedPool pool = lending(1, 1);
         pool.store(0, 1);
         pool.pass(10);
         pool.recall(1, 30);
@@ -319,7 +319,7 @@ public final class HostsTest {
     }
 
     private static void promise28() {
-        RemoteMemoryPool pool = lending(2, 2);
+        TestedPool pool = lending(2, 2);
         pool.store(29, 1);
         CHECKS.due("fresh", pool.replica(0, 29), 1);
         CHECKS.due("no replica of that page", pool.replica(0, 0), 0);

@@ -1,14 +1,26 @@
-/** All that the queries of a pool show, as one text. */
+/** All that the queries of a pool show, as one text. They are asked of twins, so that the pool keeps its calls. */
 final class Observation {
-    static String of(RemoteMemoryPool pool) {
+    static String of(TestedPool pool) {
         StringBuilder shown = new StringBuilder();
+        pages(pool.twin(), shown);
+        hosts(pool.twin(), 0, 3, shown);
+        hosts(pool.twin(), 3, 6, shown);
+        forecasts(pool.twin(), shown);
+        return shown.toString();
+    }
+
+    private static void pages(TestedPool pool, StringBuilder shown) {
         for (int page = 0; page < 30; page++) {
-            shown.append(" p").append(pool.status(page)).append(',').append(pool.copies(page));
-            if (pool.copies(page) != 0) {
+            int copies = pool.copies(page);
+            shown.append(" p").append(pool.status(page)).append(',').append(copies);
+            if (copies != 0) {
                 shown.append('=').append(pool.read(page));
             }
         }
-        for (int host = 0; host < 6; host++) {
+    }
+
+    private static void hosts(TestedPool pool, int first, int end, StringBuilder shown) {
+        for (int host = first; host < end; host++) {
             shown.append(" h").append(pool.mode(host)).append(pool.isConnected(host));
             shown.append(pool.usedRoom(host)).append('/').append(pool.freeRoom(host));
             shown.append('@').append(pool.deadlineIn(host)).append(':');
@@ -16,6 +28,9 @@ final class Observation {
                 shown.append(pool.replica(host, page));
             }
         }
+    }
+
+    private static void forecasts(TestedPool pool, StringBuilder shown) {
         for (int part = 0; part < 4; part++) {
             shown.append(" t").append(pool.transfer(part));
         }
@@ -32,7 +47,6 @@ final class Observation {
         shown.append(" done").append(pool.completedTransfers()).append(" time").append(pool.time());
         shown.append(" saved").append(pool.savedStates()).append(" text").append(pool.textLength());
         shown.append(" error").append(pool.errorPosition());
-        return shown.toString();
     }
 
     private Observation() {

@@ -18,8 +18,8 @@ public final class PagesTest {
     }
 
     /** Hosts 0, 1, .. lend these capacities. */
-    static RemoteMemoryPool lending(int... capacities) {
-        RemoteMemoryPool pool = new RemoteMemoryPool();
+    static TestedPool lending(int... capacities) {
+        TestedPool pool = new TestedPool();
         for (int host = 0; host < capacities.length; host++) {
             pool.lend(host, capacities[host]);
         }
@@ -27,7 +27,7 @@ public final class PagesTest {
     }
 
     private static void promise02Places() {
-        RemoteMemoryPool pool = lending(2, 3, 3);
+        TestedPool pool = lending(2, 3, 3);
         CHECKS.due("store on the two with the most room", pool.store(0, 0), 2);
         CHECKS.due("the lower of equal hosts, then the other", pool.copies(0), 0b110);
         CHECKS.due("store with equal room everywhere", pool.store(29, 9999), 2);
@@ -40,16 +40,16 @@ public final class PagesTest {
         CHECKS.badState("no room is left", pool, () -> pool.store(7, 1));
         CHECKS.due("undoable", pool.savedStates(), 6);
 
-        RemoteMemoryPool single = lending(1);
+        TestedPool single = lending(1);
         CHECKS.due("one host takes one replica only", single.store(3, 4), 1);
         CHECKS.due("its status", single.status(3), RemoteMemoryPool.ENDANGERED);
-        RemoteMemoryPool wide = lending(5);
+        TestedPool wide = lending(5);
         CHECKS.due("never two replicas on one host", wide.store(3, 4), 1);
         CHECKS.due("used", wide.usedRoom(0), 1);
     }
 
     private static void promise02Refuses() {
-        RemoteMemoryPool pool = lending(2, 2);
+        TestedPool pool = lending(2, 2);
         CHECKS.outOfBounds("page -1", pool, () -> pool.store(-1, -1));
         CHECKS.outOfBounds("page 30", pool, () -> pool.store(30, 10000));
         CHECKS.outOfBounds("page far off", pool, () -> pool.store(Integer.MIN_VALUE, 0));
@@ -64,17 +64,17 @@ public final class PagesTest {
         CHECKS.badState("a LOST page exists", pool, () -> pool.store(0, 2));
         pool.remove(0);
         CHECKS.due("stored anew", pool.store(0, 2), 1);
-        RemoteMemoryPool recalled = lending(2, 2);
+        TestedPool recalled = lending(2, 2);
         recalled.store(0, 1);
         recalled.recall(0, 5);
         recalled.disconnect(1);
         CHECKS.badState("recalled and disconnected hosts take nothing", recalled, () -> recalled.store(1, 1));
-        RemoteMemoryPool none = new RemoteMemoryPool();
+        TestedPool none = new TestedPool();
         CHECKS.badState("no host lends", none, () -> none.store(0, 0));
     }
 
     private static void promise03Writes() {
-        RemoteMemoryPool pool = lending(2, 2, 1);
+        TestedPool pool = lending(2, 2, 1);
         pool.store(4, 10);
         CHECKS.due("write both copies", pool.write(4, 9999), 2);
         CHECKS.due("the new value", pool.read(4), 9999);
@@ -96,7 +96,7 @@ public final class PagesTest {
     }
 
     private static void promise03Refuses() {
-        RemoteMemoryPool pool = lending(1, 1);
+        TestedPool pool = lending(1, 1);
         pool.store(1, 1);
         CHECKS.outOfBounds("page -1", pool, () -> pool.write(-1, -1));
         CHECKS.outOfBounds("page 30", pool, () -> pool.write(30, 0));
@@ -112,7 +112,7 @@ public final class PagesTest {
     }
 
     private static void promise04() {
-        RemoteMemoryPool pool = lending(1, 1);
+        TestedPool pool = lending(1, 1);
         pool.store(0, 1234);
         int saved = pool.savedStates();
         CHECKS.due("read", pool.read(0), 1234);
@@ -132,7 +132,7 @@ public final class PagesTest {
     }
 
     private static void promise05Removes() {
-        RemoteMemoryPool pool = lending(1, 1, 1);
+        TestedPool pool = lending(1, 1, 1);
         pool.store(0, 1);
         pool.disconnect(1);
         pool.pass(5);
@@ -148,12 +148,12 @@ public final class PagesTest {
         CHECKS.due("the stale one goes on reconnecting", pool.reconnect(1), 1);
         CHECKS.due("undoable", pool.savedStates(), 6);
 
-        RemoteMemoryPool lost = lending(1);
+        TestedPool lost = lending(1);
         lost.store(2, 1);
         lost.crash(0);
         CHECKS.due("a LOST page has no copies to remove", lost.remove(2), 0);
         CHECKS.due("but goes", lost.status(2), RemoteMemoryPool.NONE);
-        RemoteMemoryPool released = lending(1);
+        TestedPool released = lending(1);
         released.store(2, 1);
         released.recall(0, 100);
         CHECKS.due("remove the last replica of a recalled host", released.remove(2), 1);
@@ -161,7 +161,7 @@ public final class PagesTest {
     }
 
     private static void promise05CancelsTheTransfer() {
-        RemoteMemoryPool pool = lending(2);
+        TestedPool pool = lending(2);
         pool.store(0, 1);
         pool.store(1, 1);
         pool.lend(1, 2);
@@ -179,7 +179,7 @@ public final class PagesTest {
     }
 
     private static void promise05Refuses() {
-        RemoteMemoryPool pool = lending(1, 1);
+        TestedPool pool = lending(1, 1);
         pool.store(0, 1);
         CHECKS.outOfBounds("page -1", pool, () -> pool.remove(-1));
         CHECKS.outOfBounds("page 30", pool, () -> pool.remove(30));
@@ -189,8 +189,8 @@ public final class PagesTest {
     }
 
     /** Page 0 SAFE, 1 ENDANGERED, 2 UNAVAILABLE, 3 LOST, 4 none. */
-    private static RemoteMemoryPool allStatuses() {
-        RemoteMemoryPool pool = lending(1, 1);
+    private static TestedPool allStatuses() {
+        TestedPool pool = lending(1, 1);
         pool.store(3, 1);
         pool.crash(0);
         pool.crash(1);
@@ -207,7 +207,7 @@ public final class PagesTest {
     }
 
     private static void promise20() {
-        RemoteMemoryPool pool = allStatuses();
+        TestedPool pool = allStatuses();
         CHECKS.due("SAFE", pool.status(0), 2);
         CHECKS.due("ENDANGERED", pool.status(1), 1);
         CHECKS.due("UNAVAILABLE", pool.status(2), 0);
@@ -215,7 +215,7 @@ public final class PagesTest {
         CHECKS.due("no page", pool.status(29), -1);
         CHECKS.outOfBounds("page -1", pool, () -> pool.status(-1));
         CHECKS.outOfBounds("page 30", pool, () -> pool.status(30));
-        RemoteMemoryPool stale = lending(1, 1);
+        TestedPool stale = lending(1, 1);
         stale.store(0, 1);
         stale.disconnect(0);
         stale.write(0, 2);
@@ -224,7 +224,7 @@ public final class PagesTest {
     }
 
     private static void promise21() {
-        RemoteMemoryPool pool = allStatuses();
+        TestedPool pool = allStatuses();
         CHECKS.due("two", pool.copies(0), 0b1100);
         CHECKS.due("one", pool.copies(1), 0b0100);
         CHECKS.due("none is reached", pool.copies(2), 0);
@@ -237,7 +237,7 @@ public final class PagesTest {
     }
 
     private static void promise22() {
-        RemoteMemoryPool pool = allStatuses();
+        TestedPool pool = allStatuses();
         CHECKS.due("SAFE", pool.countStatus(2), 1);
         CHECKS.due("ENDANGERED", pool.countStatus(1), 1);
         CHECKS.due("UNAVAILABLE", pool.countStatus(0), 1);
@@ -245,7 +245,7 @@ public final class PagesTest {
         CHECKS.badArgument("NONE is no status", pool, () -> pool.countStatus(-1));
         CHECKS.badArgument("3", pool, () -> pool.countStatus(3));
         CHECKS.badArgument("-3", pool, () -> pool.countStatus(-3));
-        RemoteMemoryPool full = lending(20, 20);
+        TestedPool full = lending(20, 20);
         for (int page = 0; page < 20; page++) {
             full.store(page, page);
         }

@@ -10,14 +10,14 @@ final class Pools {
     };
 
     /** A new pool after these commands, which stand apart by blanks. */
-    static RemoteMemoryPool after(String commands) {
-        RemoteMemoryPool pool = new RemoteMemoryPool();
+    static TestedPool after(String commands) {
+        TestedPool pool = new TestedPool();
         does(pool, commands);
         return pool;
     }
 
     /** The answer of the last of these commands. */
-    static int does(RemoteMemoryPool pool, String commands) {
+    static int does(TestedPool pool, String commands) {
         int answer = 0;
         for (String command : commands.split(" ")) {
             String[] numbers = command.substring(1).split(",");
@@ -27,7 +27,7 @@ final class Pools {
         return answer;
     }
 
-    private static int one(RemoteMemoryPool pool, char letter, int first, int second) {
+    private static int one(TestedPool pool, char letter, int first, int second) {
         switch (letter) {
             case 's':
                 return pool.store(first, second);
@@ -52,14 +52,14 @@ final class Pools {
         }
     }
 
-    static RemoteMemoryPool withText(String text) {
-        RemoteMemoryPool pool = new RemoteMemoryPool();
+    static TestedPool withText(String text) {
+        TestedPool pool = new TestedPool();
         put(pool, text);
         return pool;
     }
 
     /** Makes this the whole text of the pool. */
-    static void put(RemoteMemoryPool pool, String text) {
+    static void put(TestedPool pool, String text) {
         pool.clearText();
         for (char sign : text.toCharArray()) {
             pool.appendText(sign);
@@ -67,7 +67,7 @@ final class Pools {
     }
 
     /** The transfer as page, source, target: 1203 is page 12 from host 0 to host 3; NONE if there is none. */
-    static int transfer(RemoteMemoryPool pool) {
+    static int transfer(TestedPool pool) {
         if (pool.transfer(0) == RemoteMemoryPool.NONE) {
             return RemoteMemoryPool.NONE;
         }
@@ -75,8 +75,8 @@ final class Pools {
     }
 
     /** A pool at this time, by a text that lets 9600 seconds pass a call; the text stays empty. */
-    static RemoteMemoryPool at(int time) {
-        RemoteMemoryPool pool = withText("t600" + ";t600".repeat(15));
+    static TestedPool at(int time) {
+        TestedPool pool = withText("t600" + ";t600".repeat(15));
         while (time - pool.time() >= 9600) {
             pool.runText();
         }

@@ -45,9 +45,9 @@ public final class QueryBoundsTest {
         CHECKS.sentence("queries change nothing");
         Hidden.PoolCall[] queries = {
             p -> p.status(0), p -> p.copies(0), p -> p.countStatus(1), p -> p.mode(0), p -> p.isConnected(0) ? 1 : 0, p -> p.usedRoom(0),
-            p -> p.freeRoom(0), p -> p.deadlineIn(2), p -> p.replica(1, 0), p -> p.transfer(3), RemoteMemoryPool::completedTransfers,
-            RemoteMemoryPool::time, p -> p.lostWithout(63), RemoteMemoryPool::worstPair, p -> p.lostIn(600), RemoteMemoryPool::restsIn,
-            RemoteMemoryPool::savedStates, RemoteMemoryPool::textLength,
+            p -> p.freeRoom(0), p -> p.deadlineIn(2), p -> p.replica(1, 0), p -> p.transfer(3), TestedPool::completedTransfers,
+            TestedPool::time, p -> p.lostWithout(63), TestedPool::worstPair, p -> p.lostIn(600), TestedPool::restsIn,
+            TestedPool::savedStates, TestedPool::textLength,
         };
         for (int i = 0; i < queries.length; i++) {
             Hidden.unchanged(CHECKS, "query " + i, Terms6To8Test::busy, queries[i]);
@@ -55,7 +55,7 @@ public final class QueryBoundsTest {
     }
 
     private static void status() {
-        RemoteMemoryPool pool = Pools.after("l0,2 l1,1 s0,1 s29,1");
+        TestedPool pool = Pools.after("l0,2 l1,1 s0,1 s29,1");
         CHECKS.sentence("Promise 20: status: page: 0 to 29");
         CHECKS.due("the first and the last", pool.status(0) * 10 + pool.status(29), 21);
         CHECKS.sentence("Promise 20: Returns SAFE, ENDANGERED, UNAVAILABLE or LOST; NONE if the page does not exist.");
@@ -78,7 +78,7 @@ public final class QueryBoundsTest {
     }
 
     private static void copies() {
-        RemoteMemoryPool pool = Pools.after("l0,1 l5,2 s0,1 s29,1");
+        TestedPool pool = Pools.after("l0,1 l5,2 s0,1 s29,1");
         CHECKS.sentence("Promise 21: copies: page: 0 to 29");
         CHECKS.due("the first", pool.copies(0), 0b100001);
         CHECKS.due("the last", pool.copies(29), 0b100000);
@@ -99,7 +99,7 @@ public final class QueryBoundsTest {
 
     private static void countStatus() {
         CHECKS.sentence("Promise 22: Returns the number of pages.");
-        RemoteMemoryPool pool = Pools.after("l0,20 l1,20 l2,20");
+        TestedPool pool = Pools.after("l0,20 l1,20 l2,20");
         for (int status : new int[] {2, 1, 0, -2}) {
             CHECKS.due("no pages, status " + status, pool.countStatus(status), 0);
         }
@@ -112,7 +112,7 @@ public final class QueryBoundsTest {
         CHECKS.due("none of another", pool.countStatus(2) + pool.countStatus(1) + pool.countStatus(-2), 0);
         Pools.does(pool, "x0 x1 x2");
         CHECKS.due("all LOST", pool.countStatus(-2), 30);
-        RemoteMemoryPool single = Pools.after("l0,20");
+        TestedPool single = Pools.after("l0,20");
         for (int page = 0; page < 20; page++) {
             single.store(29 - page, 1);
         }
@@ -124,7 +124,7 @@ public final class QueryBoundsTest {
     }
 
     private static void mode() {
-        RemoteMemoryPool pool = Pools.after("l0,1 l5,1 s0,1 r5,2");
+        TestedPool pool = Pools.after("l0,1 l5,1 s0,1 r5,2");
         CHECKS.sentence("Promise 23: mode: host: 0 to 5");
         CHECKS.due("the first and the last", pool.mode(0) * 10 + pool.mode(5), 12);
         CHECKS.sentence("Promise 23: Returns AWAY, LENDING or RECALLED.");
@@ -140,7 +140,7 @@ public final class QueryBoundsTest {
     }
 
     private static void isConnected() {
-        RemoteMemoryPool pool = Pools.after("l0,1 l5,1 o0 o5");
+        TestedPool pool = Pools.after("l0,1 l5,1 o0 o5");
         CHECKS.sentence("Promise 24: isConnected: host: 0 to 5");
         CHECKS.due("the first and the last", pool.isConnected(0) || pool.isConnected(5), false);
         CHECKS.sentence("Promise 24: Returns true if it is connected.");
@@ -154,12 +154,12 @@ public final class QueryBoundsTest {
     }
 
     private static void usedRoom() {
-        RemoteMemoryPool pool = Pools.after("l0,20 l5,20 s0,1 s1,1");
+        TestedPool pool = Pools.after("l0,20 l5,20 s0,1 s1,1");
         CHECKS.sentence("Promise 25: usedRoom: host: 0 to 5");
         CHECKS.due("the first and the last", pool.usedRoom(0) * 10 + pool.usedRoom(5), 22);
         CHECKS.sentence("Promise 25: Returns the used room.");
         CHECKS.due("AWAY", pool.usedRoom(1), 0);
-        RemoteMemoryPool full = Pools.after("l5,1 s29,1 o5 l0,20");
+        TestedPool full = Pools.after("l5,1 s29,1 o5 l0,20");
         for (int page = 0; page < 19; page++) {
             full.store(page, 1);
         }
@@ -174,12 +174,12 @@ public final class QueryBoundsTest {
         for (int host : Pools.NO_HOSTS) {
             CHECKS.outOfBounds("host " + host, pool, () -> pool.usedRoom(host));
         }
-        RemoteMemoryPool none = new RemoteMemoryPool();
+        TestedPool none = new TestedPool();
         CHECKS.outOfBounds("host -1 while there is no transfer", none, () -> none.usedRoom(-1));
     }
 
     private static void freeRoom() {
-        RemoteMemoryPool pool = Pools.after("l0,20 l5,1");
+        TestedPool pool = Pools.after("l0,20 l5,1");
         CHECKS.sentence("Promise 26: freeRoom: host: 0 to 5");
         CHECKS.due("the first and the last", pool.freeRoom(0) * 10 + pool.freeRoom(5), 201);
         CHECKS.sentence("Promise 26: Returns the free room.");
@@ -196,7 +196,7 @@ public final class QueryBoundsTest {
     }
 
     private static void deadlineIn() {
-        RemoteMemoryPool pool = Pools.after("l0,1 l5,1 s0,1 r0,600 r5,1");
+        TestedPool pool = Pools.after("l0,1 l5,1 s0,1 r0,600 r5,1");
         CHECKS.sentence("Promise 27: deadlineIn: host: 0 to 5");
         CHECKS.due("the first and the last", pool.deadlineIn(0) * 10 + pool.deadlineIn(5), 6001);
         CHECKS.sentence("Promise 27: Returns the number of seconds; NONE if the host is not RECALLED.");
@@ -212,7 +212,7 @@ public final class QueryBoundsTest {
         CHECKS.due("the last second", pool.deadlineIn(0), 1);
         pool.pass(1);
         CHECKS.due("past, disconnected", pool.deadlineIn(0), NONE);
-        RemoteMemoryPool again = Pools.after("l0,1 s0,1 r0,600 x0 l0,1");
+        TestedPool again = Pools.after("l0,1 s0,1 r0,600 x0 l0,1");
         CHECKS.due("LENDING again", again.deadlineIn(0), NONE);
         CHECKS.sentence("Promise 27: Throws IndexOutOfBoundsException if there is no such host");
         for (int host : Pools.NO_HOSTS) {
@@ -221,7 +221,7 @@ public final class QueryBoundsTest {
     }
 
     private static void replica() {
-        RemoteMemoryPool pool = Pools.after("l0,20 l5,20 s0,1 s29,1");
+        TestedPool pool = Pools.after("l0,20 l5,20 s0,1 s29,1");
         CHECKS.sentence("Promise 28: replica: host: 0 to 5; page: 0 to 29");
         CHECKS.due("the first of both", pool.replica(0, 0), 1);
         CHECKS.due("the last of both", pool.replica(5, 29), 1);
@@ -249,20 +249,20 @@ public final class QueryBoundsTest {
     }
 
     private static void transfer() {
-        RemoteMemoryPool pool = Pools.after("l5,1 s29,1 l4,1 t1");
+        TestedPool pool = Pools.after("l5,1 s29,1 l4,1 t1");
         CHECKS.sentence("Promise 29: part: 0: the page; 1: the source; 2: the target; 3: the number of seconds until it is completed");
         CHECKS.due("page", pool.transfer(0), 29);
         CHECKS.due("source", pool.transfer(1), 5);
         CHECKS.due("target", pool.transfer(2), 4);
         CHECKS.due("seconds", pool.transfer(3), 4);
         CHECKS.sentence("Promise 29: Returns the part; NONE if there is no transfer.");
-        RemoteMemoryPool none = Pools.after("l5,1 s29,1 l4,1 t5");
+        TestedPool none = Pools.after("l5,1 s29,1 l4,1 t5");
         for (int part = 0; part < 4; part++) {
-            CHECKS.due("at first, part " + part, new RemoteMemoryPool().transfer(part), NONE);
+            CHECKS.due("at first, part " + part, new TestedPool().transfer(part), NONE);
             CHECKS.due("after it is completed, part " + part, none.transfer(part), NONE);
             CHECKS.due("after it is cancelled, part " + part, Pools.after("l5,1 s29,1 l4,1 o4").transfer(part), NONE);
         }
-        RemoteMemoryPool longest = Pools.after("l0,1 s0,1");
+        TestedPool longest = Pools.after("l0,1 s0,1");
         longest.setTransferTime(60);
         longest.lend(1, 1);
         CHECKS.due("the most seconds", longest.transfer(3), 60);
@@ -277,8 +277,8 @@ public final class QueryBoundsTest {
 
     private static void completedTransfers() {
         CHECKS.sentence("Promise 30: Returns the number of transfers that have been completed so far (also those by which nothing changed).");
-        CHECKS.due("none", new RemoteMemoryPool().completedTransfers(), 0);
-        RemoteMemoryPool pool = Pools.after("l0,1 l1,1 l2,1 s0,1 o1 t2 c1 t2");
+        CHECKS.due("none", new TestedPool().completedTransfers(), 0);
+        TestedPool pool = Pools.after("l0,1 l1,1 l2,1 s0,1 o1 t2 c1 t2");
         CHECKS.due("under way", pool.completedTransfers(), 0);
         pool.pass(1);
         CHECKS.due("by which nothing changed", pool.completedTransfers(), 1);
@@ -295,14 +295,14 @@ public final class QueryBoundsTest {
 
     private static void time() {
         CHECKS.sentence("Promise 31: Returns the current time.");
-        CHECKS.due("at first", new RemoteMemoryPool().time(), 0);
+        CHECKS.due("at first", new TestedPool().time(), 0);
         CHECKS.due("after a second", Pools.after("t1").time(), 1);
         CHECKS.due("after calls that pass no time", Pools.after("l0,1 s0,1 w0,1 o0 c0 r0,9 x0 d0").time(), 0);
         CHECKS.due("at the limit", Pools.at(1000000).time(), 1000000);
     }
 
     private static void lostWithout() {
-        RemoteMemoryPool pool = Pools.after("l0,2 l5,2 s0,1 s29,1");
+        TestedPool pool = Pools.after("l0,2 l5,2 s0,1 s29,1");
         CHECKS.sentence("Promise 32: hosts: a set of hosts, 0 to 63; bit h is for the host h");
         CHECKS.due("no host", pool.lostWithout(0), 0);
         CHECKS.due("all hosts", pool.lostWithout(63), 2);
@@ -317,7 +317,7 @@ public final class QueryBoundsTest {
             }
         }
         CHECKS.sentence("Promise 32: Returns the number of pages that are not LOST now, and all of whose fresh replicas are on these hosts.");
-        CHECKS.due("no pages", new RemoteMemoryPool().lostWithout(63), 0);
+        CHECKS.due("no pages", new TestedPool().lostWithout(63), 0);
         pool.disconnect(5);
         CHECKS.due("a fresh replica on a disconnected host saves it", pool.lostWithout(1), 0);
         CHECKS.due("and is counted", pool.lostWithout(33), 2);
@@ -329,7 +329,7 @@ public final class QueryBoundsTest {
         pool.crash(0);
         CHECKS.due("LOST pages, also with no host", pool.lostWithout(0), 0);
         CHECKS.due("LOST pages, with all hosts", pool.lostWithout(63), 1);
-        RemoteMemoryPool all = Pools.after("l0,20 l1,20 l2,20");
+        TestedPool all = Pools.after("l0,20 l1,20 l2,20");
         for (int page = 0; page < 30; page++) {
             all.store(page, 1);
         }
@@ -351,7 +351,7 @@ public final class QueryBoundsTest {
         CHECKS.due("two pages before one", Pools.after("l0,1 l1,1 s0,1 l4,2 l5,2 s1,1 s2,1").worstPair(), 29);
         CHECKS.due("disconnected hosts too", Pools.after("l0,1 l1,1 s0,1 l4,2 l5,2 s1,1 s2,1 o4 o5").worstPair(), 29);
         CHECKS.sentence("Promise 33: of several such pairs the one with the least 6 * a + b.");
-        CHECKS.due("no page", new RemoteMemoryPool().worstPair(), 1);
+        CHECKS.due("no page", new TestedPool().worstPair(), 1);
         CHECKS.due("only LOST pages", Pools.after("l4,1 l5,1 s0,1 x4 x5").worstPair(), 1);
         CHECKS.due("one host, the first: with the next", Pools.after("l0,1 s0,1").worstPair(), 1);
         CHECKS.due("one host, the last: with the first", Pools.after("l5,1 s0,1").worstPair(), 5);
@@ -361,15 +361,15 @@ public final class QueryBoundsTest {
     }
 
     private static void lostIn() {
-        RemoteMemoryPool pool = Pools.after("l0,2 s0,1 s1,1 r0,600");
+        TestedPool pool = Pools.after("l0,2 s0,1 s1,1 r0,600");
         CHECKS.sentence("Promise 34: lostIn: seconds: 1 to 600");
         CHECKS.due("the least", pool.lostIn(1), 0);
         CHECKS.due("a second before the deadline", pool.lostIn(599), 0);
         CHECKS.due("the greatest, the deadline", pool.lostIn(600), 2);
         CHECKS.due("the least, the deadline", Pools.after("l0,1 s0,1 r0,1").lostIn(1), 1);
         CHECKS.sentence("Promise 34: Returns the number of pages whose status would be LOST.");
-        CHECKS.due("no pages", new RemoteMemoryPool().lostIn(600), 0);
-        RemoteMemoryPool all = Pools.after("l3,20 l4,20 l5,20");
+        CHECKS.due("no pages", new TestedPool().lostIn(600), 0);
+        TestedPool all = Pools.after("l3,20 l4,20 l5,20");
         for (int page = 0; page < 30; page++) {
             all.store(page, 1);
         }
@@ -391,7 +391,7 @@ public final class QueryBoundsTest {
 
     private static void lostInBeyondTheLimit() {
         CHECKS.sentence("Promise 34: Counts the pages that would be LOST after some time, if only time passed; the limit of the time is ignored.");
-        RemoteMemoryPool end = Pools.at(1000000);
+        TestedPool end = Pools.at(1000000);
         Pools.does(end, "l0,2 s0,1 s1,1 r0,600 l1,2");
         CHECKS.due("the deadline is beyond it, the transfers too", end.lostIn(600), 0);
         end.crash(1);
@@ -402,7 +402,7 @@ public final class QueryBoundsTest {
 
     private static void restsIn() {
         CHECKS.sentence("Promise 35: there is no transfer, and no host is RECALLED.");
-        CHECKS.due("at rest: a new pool", new RemoteMemoryPool().restsIn(), 0);
+        CHECKS.due("at rest: a new pool", new TestedPool().restsIn(), 0);
         CHECKS.due("at rest, with an endangered page", Pools.after("l0,1 s0,1").restsIn(), 0);
         CHECKS.due("at rest, with disconnected hosts", Pools.after("l0,1 l1,1 s0,1 o0 o1").restsIn(), 0);
         CHECKS.due("a transfer, no host RECALLED", Pools.after("l0,1 s0,1 l1,1").restsIn(), 5);
@@ -412,7 +412,7 @@ public final class QueryBoundsTest {
         CHECKS.due("both: the transfer is longer", Pools.after("l0,1 l1,1 s0,1 l2,1 r0,3").restsIn(), 8);
         CHECKS.due("RECALLED with nothing it is AWAY", Pools.after("l0,1 r0,600").restsIn(), 0);
         CHECKS.sentence("Promise 35: The limit of the time is ignored.");
-        RemoteMemoryPool end = Pools.at(1000000);
+        TestedPool end = Pools.at(1000000);
         Pools.does(end, "l0,1 s0,1 r0,600");
         CHECKS.due("600 seconds beyond it", end.restsIn(), 600);
         end.lend(1, 1);
@@ -420,8 +420,8 @@ public final class QueryBoundsTest {
         CHECKS.due("the time stays", end.time(), 1000000);
     }
 
-    private static RemoteMemoryPool minutes(int transfers) {
-        RemoteMemoryPool pool = Pools.after("l0,20");
+    private static TestedPool minutes(int transfers) {
+        TestedPool pool = Pools.after("l0,20");
         for (int page = 0; page < transfers; page++) {
             pool.store(page, 1);
         }
@@ -439,7 +439,7 @@ public final class QueryBoundsTest {
         CHECKS.due("the latest of two deadlines", Pools.after("l0,1 l1,1 s0,1 r0,599 r1,600").restsIn(), 600);
         CHECKS.due("ten minutes", minutes(10).restsIn(), 600);
         CHECKS.due("eleven", minutes(11).restsIn(), NONE);
-        RemoteMemoryPool eleven = minutes(11);
+        TestedPool eleven = minutes(11);
         eleven.pass(59);
         CHECKS.due("601 seconds", eleven.restsIn(), NONE);
         eleven.pass(1);
@@ -447,15 +447,15 @@ public final class QueryBoundsTest {
         eleven.pass(1);
         CHECKS.due("599 seconds", eleven.restsIn(), 599);
         CHECKS.due("and so it is", eleven.pass(598) * 100 + eleven.restsIn(), 901);
-        RemoteMemoryPool late = Pools.after("l0,1 l1,1 s0,1 l2,1 r0,600 o0 t596 l3,1 x2");
+        TestedPool late = Pools.after("l0,1 l1,1 s0,1 l2,1 r0,600 o0 t596 l3,1 x2");
         CHECKS.due("a restoring that ends after a deadline", late.restsIn(), 5);
         CHECKS.due("601 seconds by a restoring", restoredAfterTheDeadline(541).restsIn(), NONE);
         CHECKS.due("600 seconds by a restoring", restoredAfterTheDeadline(540).restsIn(), 600);
     }
 
     /** Page 0 has copies on host 0, which leaves at the deadline before its page has moved, and on host 1. */
-    private static RemoteMemoryPool restoredAfterTheDeadline(int deadline) {
-        RemoteMemoryPool pool = Pools.after("l0,10 l1,10");
+    private static TestedPool restoredAfterTheDeadline(int deadline) {
+        TestedPool pool = Pools.after("l0,10 l1,10");
         for (int page = 0; page < 10; page++) {
             pool.store(page, 1);
         }
@@ -467,7 +467,7 @@ public final class QueryBoundsTest {
 
     private static void savedStates() {
         CHECKS.sentence("Promise 36: Returns the number of saved states.");
-        RemoteMemoryPool pool = new RemoteMemoryPool();
+        TestedPool pool = new TestedPool();
         CHECKS.due("none", pool.savedStates(), 0);
         for (int calls = 1; calls <= 8; calls++) {
             pool.pass(1);
@@ -483,7 +483,7 @@ public final class QueryBoundsTest {
 
     private static void textLength() {
         CHECKS.sentence("Promise 37: Returns the length of the text.");
-        RemoteMemoryPool pool = new RemoteMemoryPool();
+        TestedPool pool = new TestedPool();
         CHECKS.due("empty", pool.textLength(), 0);
         for (int length = 1; length <= 80; length++) {
             pool.appendText(' ');

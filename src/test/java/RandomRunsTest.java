@@ -1,17 +1,24 @@
 import java.util.Random;
 
-/** Long runs of calls, the same at each start, on the program and on PlainPool: every answer and every query must agree. */
+/**
+ * Runs of calls, the same at each start, on the program and on PlainPool: every answer and every query must agree.
+ * Each third run has texts; it is shorter, since a text takes a call for each of its characters.
+ */
 public final class RandomRunsTest {
     private static final String LETTERS = "swdlrocxt";
     private static final int RUNS = 240;
-    private static final int CALLS = 200;
+    private static final int STEPS = 200;
+    private static final int CALLS_OF_A_STEP = 83;
+    private static final int CALLS_OF_A_LOOK = 120;
 
     private final Random random;
-    private final RemoteMemoryPool pool = new RemoteMemoryPool();
+    private final boolean texts;
+    private final TestedPool pool = new TestedPool();
     private final PlainPool plain = new PlainPool();
 
     private RandomRunsTest(long seed) {
         random = new Random(seed);
+        texts = seed % 3 == 0;
     }
 
     public static void main(String[] args) {
@@ -39,7 +46,7 @@ public final class RandomRunsTest {
     private void run(Checks checks, String name) {
         int pages = 2 + random.nextInt(29);
         int capacity = 1 + random.nextInt(20);
-        for (int i = 0; i < CALLS; i++) {
+        for (int i = 0; i < STEPS && pool.callsLeft() >= CALLS_OF_A_STEP + CALLS_OF_A_LOOK; i++) {
             String call = step(checks, name + " call " + i, pages, capacity);
             String shown = Observation.of(pool);
             if (!shown.equals(plain.observation())) {
@@ -51,7 +58,7 @@ public final class RandomRunsTest {
 
     private String step(Checks checks, String where, int pages, int capacity) {
         int kind = random.nextInt(100);
-        if (kind < 72) {
+        if (kind < 72 || kind >= 91 && !texts) {
             char letter = "ssswdlllrrooccxtttt".charAt(random.nextInt(19));
             int a = first(letter, pages);
             int b = second(letter, capacity);

@@ -35,7 +35,7 @@ public final class Terms4And5Test {
 
     private static void oneTransfer() {
         CHECKS.sentence("4: There is at most one transfer at a time.");
-        RemoteMemoryPool pool = Pools.after("l0,2 s0,1 s1,1 l1,2");
+        TestedPool pool = Pools.after("l0,2 s0,1 s1,1 l1,2");
         CHECKS.due("one place is taken, though two pages wait", pool.usedRoom(1), 1);
         CHECKS.due("none is completed in four seconds", pool.pass(4), 0);
         CHECKS.due("one in the fifth", pool.pass(1), 1);
@@ -45,22 +45,22 @@ public final class Terms4And5Test {
 
     private static void partsOfATransfer() {
         CHECKS.sentence("4: It has a page, a source, a target and a time at which it is completed, which is the time when it was chosen plus the transfer time.");
-        RemoteMemoryPool pool = Pools.after("t77 l5,1 s29,1 l4,1");
+        TestedPool pool = Pools.after("t77 l5,1 s29,1 l4,1");
         CHECKS.due("page, source, target", Pools.transfer(pool), 2954);
         CHECKS.due("time", pool.transfer(3), 5);
         pool.pass(4);
         CHECKS.due("the last second", pool.transfer(3), 1);
         CHECKS.due("due", pool.pass(1), 1);
-        RemoteMemoryPool first = Pools.after("l1,1 s0,1 l0,1");
+        TestedPool first = Pools.after("l1,1 s0,1 l0,1");
         CHECKS.due("page 0, target 0", Pools.transfer(first), 10);
     }
 
     private static void transferTime() {
         CHECKS.sentence("4: The transfer time is a setting, from 1 to 60 seconds; it is 5 at first.");
-        RemoteMemoryPool pool = Pools.after("l0,1 s0,1 l1,1");
+        TestedPool pool = Pools.after("l0,1 s0,1 l1,1");
         CHECKS.due("at first", pool.transfer(3), 5);
         for (int seconds : new int[] {1, 2, 59, 60}) {
-            RemoteMemoryPool set = Pools.after("l0,1 s0,1");
+            TestedPool set = Pools.after("l0,1 s0,1");
             CHECKS.due("the setting at first", set.setTransferTime(seconds), 5);
             set.lend(1, 1);
             CHECKS.due("set", set.transfer(3), seconds);
@@ -72,7 +72,7 @@ public final class Terms4And5Test {
 
     private static void transferUnderWay() {
         CHECKS.sentence("4: A change of the setting does not affect a transfer that is under way.");
-        RemoteMemoryPool pool = Pools.after("l0,2 s0,1 s1,1 l1,2 t2");
+        TestedPool pool = Pools.after("l0,2 s0,1 s1,1 l1,2 t2");
         pool.setTransferTime(60);
         CHECKS.due("not made longer", pool.transfer(3), 3);
         pool.setTransferTime(1);
@@ -83,9 +83,9 @@ public final class Terms4And5Test {
 
     private static void candidatesNeedABestHost() {
         CHECKS.sentence("4: such that there is a best host for the page");
-        RemoteMemoryPool full = Pools.after("l0,2 s0,1 s1,1");
+        TestedPool full = Pools.after("l0,2 s0,1 s1,1");
         CHECKS.due("an endangered page without a best host", full.transfer(0), NONE);
-        RemoteMemoryPool second = Pools.after("l0,4 l2,1 s1,1 l1,2 s0,1 r0,9");
+        TestedPool second = Pools.after("l0,4 l2,1 s1,1 l1,2 s0,1 r0,9");
         CHECKS.due("page 0 has none, page 1 has one", Pools.transfer(second), 101);
         second.lend(3, 3);
         second.pass(5);
@@ -94,11 +94,11 @@ public final class Terms4And5Test {
 
     private static void classOne() {
         CHECKS.sentence("4: class 1: the page has one copy, and the host is RECALLED;");
-        RemoteMemoryPool pool = Pools.after("l0,1 s0,1 r0,60 l1,1");
+        TestedPool pool = Pools.after("l0,1 s0,1 r0,60 l1,1");
         CHECKS.due("one copy", Pools.transfer(pool), 1);
-        RemoteMemoryPool cut = Pools.after("l0,1 l1,1 s0,1 o1 r0,60 l2,1");
+        TestedPool cut = Pools.after("l0,1 l1,1 s0,1 o1 r0,60 l2,1");
         CHECKS.due("one copy and a replica elsewhere", Pools.transfer(cut), 2);
-        RemoteMemoryPool off = Pools.after("l0,1 s0,1 r0,60 o0 l1,1");
+        TestedPool off = Pools.after("l0,1 s0,1 r0,60 o0 l1,1");
         CHECKS.due("no copy", off.transfer(0), NONE);
     }
 
@@ -163,53 +163,53 @@ public final class Terms4And5Test {
         CHECKS.due("the one with more room", Pools.transfer(Pools.after("l0,1 s0,1 o0 l1,1 l2,2 c0")), 2);
         CHECKS.due("of equal ones the lower", Pools.transfer(Pools.after("l0,1 s0,1 o0 l1,2 l2,2 c0")), 1);
         CHECKS.due("not one that holds the page", Pools.transfer(Pools.after("l0,1 l1,20 s0,1 l2,1 r0,9")), 2);
-        RemoteMemoryPool later = Pools.after("l0,1 s0,1 l1,1 t1 l2,20");
+        TestedPool later = Pools.after("l0,1 s0,1 l1,1 t1 l2,20");
         CHECKS.due("what lends later changes nothing", Pools.transfer(later) * 10 + later.transfer(3), 14);
     }
 
     private static void noCandidate() {
         CHECKS.sentence("4: If there is no candidate, there is no transfer.");
-        CHECKS.due("no page", new RemoteMemoryPool().transfer(0), NONE);
+        CHECKS.due("no page", new TestedPool().transfer(0), NONE);
         CHECKS.due("no endangered page", Pools.after("l0,1 l1,1 l2,1 s0,1").transfer(0), NONE);
         CHECKS.due("no host with room", Pools.after("l0,1 s0,1 r0,9").transfer(0), NONE);
-        RemoteMemoryPool lost = Pools.after("l0,1 s0,1 x0 l1,1");
+        TestedPool lost = Pools.after("l0,1 s0,1 x0 l1,1");
         CHECKS.due("a LOST page", lost.transfer(0), NONE);
         CHECKS.due("a long time changes nothing", lost.pass(600), 0);
     }
 
     private static void completedFromRecalled() {
         CHECKS.sentence("4: If the source is RECALLED, its replica is removed, and the target gets a replica with the stamp of the page.");
-        RemoteMemoryPool one = Pools.after("l0,2 s0,1 s1,1 r0,60 l1,1 t4 w0,2");
+        TestedPool one = Pools.after("l0,2 s0,1 s1,1 r0,60 l1,1 t4 w0,2");
         CHECKS.due("before", one.copies(0), 0b01);
         one.pass(1);
         CHECKS.due("one copy: moved", one.copies(0), 0b10);
         CHECKS.due("with the stamp of the page by now", one.replica(1, 0), 1);
         CHECKS.due("another page stays", one.copies(1), 0b01);
-        RemoteMemoryPool last = Pools.after("l0,1 s29,1 r0,60 l1,1 t5");
+        TestedPool last = Pools.after("l0,1 s29,1 r0,60 l1,1 t5");
         CHECKS.due("the last page: moved", last.copies(29), 0b10);
         CHECKS.due("the last page: its host is empty", last.usedRoom(0) + last.mode(0), 0);
-        RemoteMemoryPool two = Pools.after("l0,1 l1,1 s0,1 l2,1 r0,60 t5");
+        TestedPool two = Pools.after("l0,1 l1,1 s0,1 l2,1 r0,60 t5");
         CHECKS.due("two copies: moved", two.copies(0), 0b110);
-        RemoteMemoryPool since = Pools.after("l0,1 l1,1 s0,1 o1 l2,1 t2 c1");
+        TestedPool since = Pools.after("l0,1 l1,1 s0,1 o1 l2,1 t2 c1");
         CHECKS.due("chosen with one copy from a LENDING host", Pools.transfer(since), 2);
         Pools.does(since, "r0,60 t3");
         CHECKS.due("RECALLED since, with two copies: moved", since.copies(0), 0b110);
-        RemoteMemoryPool alone = Pools.after("l0,1 s0,1 l1,1 t2 r0,60 t3");
+        TestedPool alone = Pools.after("l0,1 s0,1 l1,1 t2 r0,60 t3");
         CHECKS.due("RECALLED since, with one copy: moved", alone.copies(0), 0b10);
     }
 
     private static void completedFromLendingWithOneCopy() {
         CHECKS.sentence("4: If the source is LENDING and the page has one copy, the target gets a replica with the stamp of the page.");
-        RemoteMemoryPool pool = Pools.after("l0,1 s0,1 l1,1 t4 w0,2 t1");
+        TestedPool pool = Pools.after("l0,1 s0,1 l1,1 t4 w0,2 t1");
         CHECKS.due("copied", pool.copies(0), 0b11);
         CHECKS.due("with the stamp of the page by now", pool.replica(1, 0), 1);
-        RemoteMemoryPool cut = Pools.after("l0,1 l1,1 l2,1 s0,1 o1 t5");
+        TestedPool cut = Pools.after("l0,1 l1,1 l2,1 s0,1 o1 t5");
         CHECKS.due("one copy, and a replica that is cut off", cut.copies(0), 0b101);
     }
 
     private static void completedFromLendingWithTwoCopies() {
         CHECKS.sentence("4: If the source is LENDING and the page has two or more copies, nothing changes.");
-        RemoteMemoryPool pool = Pools.after("l0,1 l1,1 l2,1 s0,1 o1 t2 c1 t2");
+        TestedPool pool = Pools.after("l0,1 l1,1 l2,1 s0,1 o1 t2 c1 t2");
         CHECKS.due("under way with two copies", Pools.transfer(pool), 2);
         CHECKS.due("it is completed", pool.pass(1), 1);
         CHECKS.due("the target gets nothing", pool.replica(2, 0), 0);
@@ -220,7 +220,7 @@ public final class Terms4And5Test {
 
     private static void noTransferThen() {
         CHECKS.sentence("4: There is no transfer then.");
-        RemoteMemoryPool pool = Pools.after("l0,1 s0,1 l1,2 t5");
+        TestedPool pool = Pools.after("l0,1 s0,1 l1,2 t5");
         for (int part = 0; part < 4; part++) {
             CHECKS.due("part " + part, pool.transfer(part), NONE);
         }
@@ -231,8 +231,8 @@ public final class Terms4And5Test {
     private static void secondBySecond() {
         CHECKS.sentence("5: When time passes, the current time increases second by second.");
         String start = "l0,20 l1,20 s0,1 s1,1 s2,1 s3,1 s4,1 x1 l2,3 r0,16 l3,20 ";
-        RemoteMemoryPool whole = Pools.after(start);
-        RemoteMemoryPool single = Pools.after(start);
+        TestedPool whole = Pools.after(start);
+        TestedPool single = Pools.after(start);
         int completed = 0;
         for (int second = 0; second < 60; second++) {
             completed += single.pass(1);
@@ -246,12 +246,12 @@ public final class Terms4And5Test {
 
     private static void transferBeforeDeadline() {
         CHECKS.sentence("5: In each second the following happens in this order: the transfer is completed if it is due at this time;");
-        RemoteMemoryPool same = Pools.after("l0,1 s0,1 r0,5 l1,1");
+        TestedPool same = Pools.after("l0,1 s0,1 r0,5 l1,1");
         CHECKS.due("due in the second of the deadline", same.pass(5), 1);
         CHECKS.due("saved", same.copies(0), 0b10);
-        RemoteMemoryPool before = Pools.after("l0,1 s0,1 r0,6 l1,1 t6");
+        TestedPool before = Pools.after("l0,1 s0,1 r0,6 l1,1 t6");
         CHECKS.due("due a second before", before.copies(0), 0b10);
-        RemoteMemoryPool after = Pools.after("l0,1 s0,1 r0,4 l1,1");
+        TestedPool after = Pools.after("l0,1 s0,1 r0,4 l1,1");
         CHECKS.due("due a second after", after.pass(600), 0);
         CHECKS.due("lost", after.status(0), LOST);
     }
@@ -259,7 +259,7 @@ public final class Terms4And5Test {
     private static void deadlines() {
         CHECKS.sentence("5: then each host that is RECALLED and whose deadline is this time, connected or not, in ascending order of their numbers, "
             + "loses all its replicas and becomes AWAY (it stays connected or disconnected)");
-        RemoteMemoryPool pool = Pools.after("l0,2 l1,2 l2,2 s0,1 s1,1 s2,1 r0,7 r1,7 r2,8 o1 w0,2 t6");
+        TestedPool pool = Pools.after("l0,2 l1,2 l2,2 s0,1 s1,1 s2,1 r0,7 r1,7 r2,8 o1 w0,2 t6");
         CHECKS.due("a second before", pool.mode(0) + pool.mode(1) + pool.mode(2), 3 * RECALLED);
         pool.pass(1);
         CHECKS.due("both of this second, not the next", pool.mode(0) * 100 + pool.mode(1) * 10 + pool.mode(2), RECALLED);
@@ -271,18 +271,18 @@ public final class Terms4And5Test {
         CHECKS.due("a second later", pool.mode(2), AWAY);
         CHECKS.due("all lost", pool.countStatus(LOST), 3);
         CHECKS.due("a LENDING host has none", Pools.after("l0,1 s0,1 t600 t600").mode(0), RemoteMemoryPool.LENDING);
-        RemoteMemoryPool again = Pools.after("l0,1 s0,1 r0,7 x0 l0,1 s1,1 t6 t1");
+        TestedPool again = Pools.after("l0,1 s0,1 r0,7 x0 l0,1 s1,1 t6 t1");
         CHECKS.due("the deadline before a crash does not count", again.mode(0), RemoteMemoryPool.LENDING);
         CHECKS.due("and takes no replica", again.status(1), RemoteMemoryPool.ENDANGERED);
         CHECKS.due("the longest", Pools.after("l0,1 s0,1 r0,600 t599").mode(0), RECALLED);
         CHECKS.due("the longest, at its end", Pools.after("l0,1 s0,1 r0,600 t600").mode(0), AWAY);
         CHECKS.due("the shortest", Pools.after("l0,1 s0,1 r0,1 t1").mode(0), AWAY);
         for (int host = 0; host < 6; host++) {
-            RemoteMemoryPool midst = Pools.after("l" + host + ",1 s0,1 r" + host + ",7 t100");
+            TestedPool midst = Pools.after("l" + host + ",1 s0,1 r" + host + ",7 t100");
             CHECKS.due("in the midst of a call, host " + host, midst.mode(host), AWAY);
             CHECKS.due("the time goes on, host " + host, midst.time(), 100);
         }
-        RemoteMemoryPool six = Pools.after("l0,1 l1,1 s0,1 l2,1 l3,1 s1,1 l4,1 l5,1 s2,1 r0,16 r1,15 r2,14 r3,13 r4,12 r5,11");
+        TestedPool six = Pools.after("l0,1 l1,1 s0,1 l2,1 l3,1 s1,1 l4,1 l5,1 s2,1 r0,16 r1,15 r2,14 r3,13 r4,12 r5,11");
         for (int host = 5; host >= 0; host--) {
             CHECKS.due("lost by the time of host " + host, six.lostIn(16 - host), host % 2 == 0 ? 3 - host / 2 : 2 - host / 2);
         }
@@ -291,27 +291,27 @@ public final class Terms4And5Test {
 
     private static void deadlineCancels() {
         CHECKS.sentence("5: and the transfer is cancelled if it comes from this host;");
-        RemoteMemoryPool from = Pools.after("l0,1 s0,1 r0,4 l1,1 t4");
+        TestedPool from = Pools.after("l0,1 s0,1 r0,4 l1,1 t4");
         CHECKS.due("from it", from.transfer(0), NONE);
         CHECKS.due("no place is taken", from.usedRoom(1), 0);
         CHECKS.due("never completed", from.pass(1) + from.completedTransfers(), 0);
-        RemoteMemoryPool other = Pools.after("l0,1 s0,1 l1,1 l4,1 s5,1 r4,2 t2");
+        TestedPool other = Pools.after("l0,1 s0,1 l1,1 l4,1 s5,1 r4,2 t2");
         CHECKS.due("the host of page 5 has gone", other.status(5), LOST);
         CHECKS.due("from another host", Pools.transfer(other) * 10 + other.transfer(3), 13);
         CHECKS.due("page 1 from host 3 to host 2", Pools.after("l3,1 s1,1 r3,4 l2,1 t4").transfer(0), NONE);
-        RemoteMemoryPool page = Pools.after("l3,1 s1,1 l2,1 l1,1 s5,1 r1,2 t2");
+        TestedPool page = Pools.after("l3,1 s1,1 l2,1 l1,1 s5,1 r1,2 t2");
         CHECKS.due("page 1, host 1", Pools.transfer(page) * 10 + page.transfer(3), 1323);
     }
 
     private static void deadlineBeforeSettling() {
         CHECKS.sentence("5: then the pool settles (section 3).");
-        RemoteMemoryPool two = Pools.after("l0,2 s0,1 s1,1 r0,5 l1,2 t5");
+        TestedPool two = Pools.after("l0,2 s0,1 s1,1 r0,5 l1,2 t5");
         CHECKS.due("page 1 is lost in the second in which page 0 is saved", two.status(1), LOST);
         CHECKS.due("no transfer from a host that has gone", two.transfer(0), NONE);
-        RemoteMemoryPool next = Pools.after("l0,1 l1,1 s0,1 l2,1 r0,3 t3");
+        TestedPool next = Pools.after("l0,1 l1,1 s0,1 l2,1 r0,3 t3");
         CHECKS.due("a new transfer in the second of the deadline", Pools.transfer(next) * 10 + next.transfer(3), 125);
         CHECKS.due("completed five seconds later", next.pass(4) * 10 + next.pass(1), 1);
-        RemoteMemoryPool released = Pools.after("l0,1 s0,1 r0,9 l1,1 t5");
+        TestedPool released = Pools.after("l0,1 s0,1 r0,9 l1,1 t5");
         CHECKS.due("released in the second of the transfer", released.mode(0), AWAY);
         CHECKS.due("not by its deadline", released.deadlineIn(0), NONE);
     }

@@ -28,8 +28,8 @@ public final class Terms6To8Test {
     }
 
     /** A pool with six saved states, both slots filled, a transfer, all three modes, stale replicas and a full text. */
-    static RemoteMemoryPool busy() {
-        RemoteMemoryPool pool = Pools.after("l0,4 l1,4 s0,1 s1,2 s2,3");
+    static TestedPool busy() {
+        TestedPool pool = Pools.after("l0,4 l1,4 s0,1 s1,2 s2,3");
         pool.setTransferTime(7);
         pool.save(0);
         Pools.does(pool, "l2,3 o1 w0,9 d2 t8");
@@ -41,15 +41,15 @@ public final class Terms6To8Test {
         return pool;
     }
 
-    private static RemoteMemoryPool busyWithHalfAText() {
-        RemoteMemoryPool pool = busy();
+    private static TestedPool busyWithHalfAText() {
+        TestedPool pool = busy();
         Pools.put(pool, "x0;l0,1;t");
         return pool;
     }
 
     private static void stateHasAll() {
         CHECKS.sentence("6: The state consists of everything in sections 1 to 5, the transfer time, and the number of completed transfers.");
-        RemoteMemoryPool pool = busy();
+        TestedPool pool = busy();
         String before = Observation.of(pool);
         CHECKS.due("all kinds of things to keep", pool.completedTransfers() > 0 && pool.transfer(0) != NONE && pool.usedRoom(1) > 0, true);
         pool.save(0);
@@ -69,20 +69,20 @@ public final class Terms6To8Test {
         pool.restore(0);
         Pools.does(pool, "t40 x0");
         CHECKS.due("what happens later is the same too", Observation.of(pool), once);
-        RemoteMemoryPool hosts = Pools.after("l0,4 l1,4 l2,4 l3,4 l4,4 l5,4 s0,1 s1,1 s2,1 r5,9 r0,9 o4 w2,2");
+        TestedPool hosts = Pools.after("l0,4 l1,4 l2,4 l3,4 l4,4 l5,4 s0,1 s1,1 s2,1 r5,9 r0,9 o4 w2,2");
         String six = Observation.of(hosts);
         hosts.save(0);
         Pools.does(hosts, "x0 x1 x2 x3 x4 x5");
         hosts.restore(0);
         CHECKS.due("all six hosts", Observation.of(hosts), six);
-        RemoteMemoryPool stamped = Pools.after("l0,1 l1,1 s0,1 o0 w0,1");
+        TestedPool stamped = Pools.after("l0,1 l1,1 s0,1 o0 w0,1");
         stamped.save(0);
         stamped.restore(0);
         for (int writes = 0; writes < 4; writes++) {
             CHECKS.due("the stamp counter goes on where it was, writes " + writes, stamped.replica(0, 0), 2);
             stamped.write(0, 1);
         }
-        RemoteMemoryPool values = Pools.after("l0,20 l1,20 l2,20");
+        TestedPool values = Pools.after("l0,20 l1,20 l2,20");
         for (int page = 0; page < 30; page++) {
             values.store(page, 1000 + page);
         }
@@ -107,7 +107,7 @@ public final class Terms6To8Test {
             p -> p.reconnect(1), p -> p.crash(0), p -> p.pass(77), p -> p.setTransferTime(9), p -> p.restore(1), p -> p.restore(0),
         };
         for (int i = 0; i < calls.length; i++) {
-            RemoteMemoryPool pool = busy();
+            TestedPool pool = busy();
             pool.undo();
             String before = Observation.of(pool);
             calls[i].on(pool);
@@ -116,7 +116,7 @@ public final class Terms6To8Test {
             CHECKS.due("as it was before call " + i, Observation.of(pool), before);
             CHECKS.due("with its transfer time, call " + i, pool.setTransferTime(1), 11);
         }
-        RemoteMemoryPool text = busy();
+        TestedPool text = busy();
         text.clearText();
         Pools.put(text, "l5,1;t1;x0;t2");
         text.undo();
@@ -131,10 +131,10 @@ public final class Terms6To8Test {
             p -> p.remove(30), p -> p.remove(0), p -> p.lend(6, 1), p -> p.lend(0, 0), p -> p.lend(5, 1), p -> p.recall(6, 1),
             p -> p.recall(0, 0), p -> p.recall(0, 1), p -> p.disconnect(6), p -> p.disconnect(0), p -> p.reconnect(6),
             p -> p.reconnect(0), p -> p.crash(6), p -> p.crash(0), p -> p.pass(0), p -> p.setTransferTime(0), p -> p.restore(2),
-            p -> p.restore(1), RemoteMemoryPool::runText,
+            p -> p.restore(1), TestedPool::runText,
         };
         for (int i = 0; i < refused.length; i++) {
-            RemoteMemoryPool pool = Pools.after("l5,1 s29,0");
+            TestedPool pool = Pools.after("l5,1 s29,0");
             try {
                 CHECKS.fail("refused call " + i + " answered " + refused[i].on(pool));
             } catch (RuntimeException e) {
@@ -145,7 +145,7 @@ public final class Terms6To8Test {
 
     private static void undoableSavesWithoutChange() {
         CHECKS.sentence("6: (It is saved even if the call changes nothing.)");
-        RemoteMemoryPool pool = Pools.after("l0,1");
+        TestedPool pool = Pools.after("l0,1");
         pool.setTransferTime(5);
         CHECKS.due("the transfer time that it has", pool.savedStates(), 2);
         pool.save(0);
@@ -162,7 +162,7 @@ public final class Terms6To8Test {
 
     private static void othersDoNotSave() {
         CHECKS.sentence("6: A method that is marked \"Undoable\" saves the state: no other method does");
-        RemoteMemoryPool pool = Pools.after("l0,1 s0,1");
+        TestedPool pool = Pools.after("l0,1 s0,1");
         pool.read(0);
         pool.appendText('t');
         pool.clearText();
@@ -177,7 +177,7 @@ public final class Terms6To8Test {
     private static void sixAreSaved() {
         CHECKS.sentence("6: At most 6 states are saved; when a seventh state is saved, the oldest saved state is discarded.");
         for (int calls : new int[] {5, 6, 7, 12, 13, 100}) {
-            RemoteMemoryPool pool = new RemoteMemoryPool();
+            TestedPool pool = new TestedPool();
             for (int i = 0; i < calls; i++) {
                 pool.pass(1);
             }
@@ -189,7 +189,7 @@ public final class Terms6To8Test {
             }
             CHECKS.badState("no more, after " + calls + " calls", pool, pool::undo);
         }
-        RemoteMemoryPool mixed = new RemoteMemoryPool();
+        TestedPool mixed = new TestedPool();
         Pools.does(mixed, "t1 t1 t1 t1 t1 t1 t1 t1");
         mixed.undo();
         mixed.undo();
@@ -204,12 +204,12 @@ public final class Terms6To8Test {
 
     private static void twoSlots() {
         CHECKS.sentence("6: There are two slots, 0 and 1, which are empty at first.");
-        RemoteMemoryPool pool = Pools.after("t1");
+        TestedPool pool = Pools.after("t1");
         CHECKS.badState("slot 0", pool, () -> pool.restore(0));
         CHECKS.badState("slot 1", pool, () -> pool.restore(1));
         pool.save(0);
         CHECKS.badState("slot 1, slot 0 is filled", pool, () -> pool.restore(1));
-        RemoteMemoryPool other = Pools.after("t1");
+        TestedPool other = Pools.after("t1");
         other.save(1);
         CHECKS.badState("slot 0, slot 1 is filled", other, () -> other.restore(0));
         other.pass(1);
@@ -222,7 +222,7 @@ public final class Terms6To8Test {
 
     private static void savedStatesAreNotState() {
         CHECKS.sentence("6: Saved states and slots are not part of the state.");
-        RemoteMemoryPool pool = Pools.after("t1 t1");
+        TestedPool pool = Pools.after("t1 t1");
         pool.save(0);
         Pools.does(pool, "t1 t1");
         pool.restore(0);
@@ -243,7 +243,7 @@ public final class Terms6To8Test {
 
     private static void textHoldsEighty() {
         CHECKS.sentence("7: The text buffer holds at most 80 characters, is empty at first, and is not part of the state.");
-        RemoteMemoryPool pool = new RemoteMemoryPool();
+        TestedPool pool = new TestedPool();
         CHECKS.due("empty at first", pool.textLength(), 0);
         CHECKS.due("and not valid", pool.errorPosition(), 0);
         for (int length = 1; length <= 80; length++) {
@@ -257,7 +257,7 @@ public final class Terms6To8Test {
 
     private static void textIsNotState() {
         CHECKS.sentence("7: is not part of the state.");
-        RemoteMemoryPool pool = new RemoteMemoryPool();
+        TestedPool pool = new TestedPool();
         Pools.put(pool, "t7");
         pool.save(0);
         pool.runText();
@@ -440,20 +440,20 @@ public final class Terms6To8Test {
 
     private static void refusedAtTheEdges() {
         CHECKS.sentence("8: A call that throws an exception changes nothing. (where the pool is empty, full or at its limit)");
-        Hidden.unchanged(CHECKS, "undo of nothing", () -> emptied("l0,1"), STATE, RemoteMemoryPool::undo);
+        Hidden.unchanged(CHECKS, "undo of nothing", () -> emptied("l0,1"), STATE, TestedPool::undo);
         Hidden.unchanged(CHECKS, "restore of an empty slot", () -> Pools.after("l0,1 s0,1"), STATE, p -> p.restore(1));
         Hidden.unchanged(CHECKS, "store without room", () -> Pools.after("l0,1 s0,1"), STATE, p -> p.store(1, 1));
         Hidden.unchanged(CHECKS, "read of an UNAVAILABLE page", () -> Pools.after("l0,1 s0,1 o0"), STATE, p -> p.read(0));
         Hidden.unchanged(CHECKS, "write of an UNAVAILABLE page", () -> Pools.after("l0,1 s0,1 o0"), STATE, p -> p.write(0, 2));
         Hidden.unchanged(CHECKS, "store of an UNAVAILABLE page", () -> Pools.after("l0,1 s0,1 o0 l1,1"), STATE, p -> p.store(0, 2));
         Hidden.unchanged(CHECKS, "pass beyond the limit", () -> atEnd("l0,1"), STATE, p -> p.pass(1));
-        Hidden.unchanged(CHECKS, "runText of a text that is not valid", Terms6To8Test::busyWithHalfAText, STATE, RemoteMemoryPool::runText);
-        Hidden.unchanged(CHECKS, "runText of an empty text", () -> Pools.after("l0,1 s0,1"), STATE, RemoteMemoryPool::runText);
+        Hidden.unchanged(CHECKS, "runText of a text that is not valid", Terms6To8Test::busyWithHalfAText, STATE, TestedPool::runText);
+        Hidden.unchanged(CHECKS, "runText of an empty text", () -> Pools.after("l0,1 s0,1"), STATE, TestedPool::runText);
     }
 
     /** With nothing saved, but with a host to crash. */
-    private static RemoteMemoryPool emptied(String commands) {
-        RemoteMemoryPool pool = Pools.after(commands);
+    private static TestedPool emptied(String commands) {
+        TestedPool pool = Pools.after(commands);
         pool.save(0);
         pool.undo();
         pool.restore(0);
@@ -462,15 +462,15 @@ public final class Terms6To8Test {
         return pool;
     }
 
-    private static RemoteMemoryPool atEnd(String commands) {
-        RemoteMemoryPool pool = Pools.at(1000000);
+    private static TestedPool atEnd(String commands) {
+        TestedPool pool = Pools.at(1000000);
         Pools.does(pool, commands);
         return pool;
     }
 
     private static void firstNamedIsThrown() {
         CHECKS.sentence("8: If several exceptions apply to a call, the one that is named first in the throws clause of the method is thrown.");
-        RemoteMemoryPool none = new RemoteMemoryPool();
+        TestedPool none = new TestedPool();
         CHECKS.outOfBounds("store: all three", none, () -> none.store(30, 10000));
         CHECKS.outOfBounds("store: bounds and state", none, () -> none.store(-1, 0));
         CHECKS.badArgument("store: argument and state", none, () -> none.store(0, -1));
@@ -486,13 +486,13 @@ public final class Terms6To8Test {
         CHECKS.outOfBounds("reconnect: bounds and state", none, () -> none.reconnect(6));
         CHECKS.outOfBounds("crash: bounds and state", none, () -> none.crash(-1));
         CHECKS.outOfBounds("restore: bounds and state", none, () -> none.restore(2));
-        RemoteMemoryPool lending = Pools.after("l0,1 l1,1 l2,1 l3,1 l4,1 l5,1");
+        TestedPool lending = Pools.after("l0,1 l1,1 l2,1 l3,1 l4,1 l5,1");
         CHECKS.outOfBounds("lend: all three", lending, () -> lending.lend(6, 21));
         CHECKS.outOfBounds("lend: bounds and state", lending, () -> lending.lend(-1, 1));
         CHECKS.badArgument("lend: argument and state", lending, () -> lending.lend(0, 0));
-        RemoteMemoryPool end = Pools.at(1000000);
+        TestedPool end = Pools.at(1000000);
         CHECKS.badArgument("pass: argument and state", end, () -> end.pass(601));
-        RemoteMemoryPool full = Pools.withText("t".repeat(80));
+        TestedPool full = Pools.withText("t".repeat(80));
         CHECKS.badArgument("appendText: argument and state", full, () -> full.appendText(31));
     }
 }

@@ -16,21 +16,21 @@ public final class TextsTest {
         CHECKS.end();
     }
 
-    private static void put(RemoteMemoryPool pool, String text) {
+    private static void put(TestedPool pool, String text) {
         pool.clearText();
         for (char sign : text.toCharArray()) {
             pool.appendText(sign);
         }
     }
 
-    private static RemoteMemoryPool with(String text) {
-        RemoteMemoryPool pool = new RemoteMemoryPool();
+    private static TestedPool with(String text) {
+        TestedPool pool = new TestedPool();
         put(pool, text);
         return pool;
     }
 
     private static void promise13() {
-        RemoteMemoryPool pool = new RemoteMemoryPool();
+        TestedPool pool = new TestedPool();
         CHECKS.due("the first", pool.appendText(32), 1);
         CHECKS.due("the second", pool.appendText(126), 2);
         CHECKS.badArgument("31", pool, () -> pool.appendText(31));
@@ -48,7 +48,7 @@ public final class TextsTest {
     }
 
     private static void promise14() {
-        RemoteMemoryPool pool = with("t1");
+        TestedPool pool = with("t1");
         CHECKS.due("two", pool.clearText(), 2);
         CHECKS.due("empty", pool.clearText(), 0);
         CHECKS.due("not undoable", pool.savedStates(), 0);
@@ -141,13 +141,13 @@ public final class TextsTest {
     }
 
     private static void wrong(String text, int position) {
-        RemoteMemoryPool pool = with(text);
+        TestedPool pool = with(text);
         CHECKS.due(text, pool.errorPosition(), position);
         CHECKS.badState("run " + text, pool, pool::runText);
     }
 
     private static void promise16() {
-        RemoteMemoryPool pool = with("l0,2;l1,20;s3,77;w3,78;s12,5;o1;c1;r0,9;d12;x1;t600");
+        TestedPool pool = with("l0,2;l1,20;s3,77;w3,78;s12,5;o1;c1;r0,9;d12;x1;t600");
         CHECKS.due("all of them", pool.runText(), 11);
         CHECKS.due("as one call", pool.savedStates(), 1);
         CHECKS.due("time", pool.time(), 600);
@@ -159,7 +159,7 @@ public final class TextsTest {
         CHECKS.due("all undone", pool.time() + pool.mode(0), 0);
         CHECKS.due("no page", pool.status(3), NONE);
 
-        RemoteMemoryPool reads = with("l0,2;l5,3;s3,77;w3,9078");
+        TestedPool reads = with("l0,2;l5,3;s3,77;w3,9078");
         CHECKS.due("four", reads.runText(), 4);
         CHECKS.due("written", reads.read(3), 9078);
         CHECKS.due("capacities", reads.freeRoom(0) * 10 + reads.freeRoom(5), 12);
@@ -181,22 +181,22 @@ public final class TextsTest {
             "l0,5;t1;s0,1;o1;t9", "l0,5;t1;s0,1;c0;t9", "l0,5;t1;s0,1;x1;t9",
         };
         for (String text : stopping) {
-            RemoteMemoryPool pool = with(text);
+            TestedPool pool = with(text);
             CHECKS.due(text, pool.runText(), 3);
             CHECKS.due(text + ": time", pool.time(), 1);
             CHECKS.due(text + ": what is done stays", pool.read(0), 1);
             CHECKS.due(text + ": saved", pool.savedStates(), 1);
         }
-        RemoteMemoryPool none = with("d0;t5");
+        TestedPool none = with("d0;t5");
         CHECKS.due("the first is refused", none.runText(), 0);
         CHECKS.due("saved, though nothing is done", none.savedStates(), 1);
         CHECKS.due("nothing is done", none.time(), 0);
-        RemoteMemoryPool full = with("s0,1");
+        TestedPool full = with("s0,1");
         CHECKS.due("no host lends", full.runText(), 0);
     }
 
     private static void promise16Refuses() {
-        RemoteMemoryPool pool = with("l0,1;s0");
+        TestedPool pool = with("l0,1;s0");
         CHECKS.badState("not valid", pool, pool::runText);
         CHECKS.due("nothing is executed", pool.mode(0), 0);
         pool.clearText();
@@ -205,7 +205,7 @@ public final class TextsTest {
     }
 
     private static void promise37() {
-        RemoteMemoryPool pool = new RemoteMemoryPool();
+        TestedPool pool = new TestedPool();
         CHECKS.due("empty", pool.textLength(), 0);
         put(pool, "t600");
         CHECKS.due("four", pool.textLength(), 4);

@@ -18,16 +18,16 @@ public final class TimeTest {
         CHECKS.end();
     }
 
-    private static RemoteMemoryPool lending(int... capacities) {
+    private static TestedPool lending(int... capacities) {
         return PagesTest.lending(capacities);
     }
 
-    private static int transferOf(RemoteMemoryPool pool) {
+    private static int transferOf(TestedPool pool) {
         return pool.transfer(0) * 100 + pool.transfer(1) * 10 + pool.transfer(2);
     }
 
     private static void promise11CompletesTransfers() {
-        RemoteMemoryPool pool = lending(3);
+        TestedPool pool = lending(3);
         pool.store(0, 1);
         pool.store(1, 1);
         pool.store(2, 1);
@@ -48,13 +48,13 @@ public final class TimeTest {
     }
 
     private static void promise11MeetsDeadlines() {
-        RemoteMemoryPool tie = lending(1, 1);
+        TestedPool tie = lending(1, 1);
         tie.store(0, 1);
         tie.recall(0, 5);
         tie.lend(2, 1);
         CHECKS.due("the transfer is completed before the deadline of that second", tie.pass(5), 1);
         CHECKS.due("moved", tie.copies(0), 0b110);
-        RemoteMemoryPool late = lending(1);
+        TestedPool late = lending(1);
         late.store(0, 1);
         late.recall(0, 4);
         late.lend(1, 1);
@@ -63,13 +63,13 @@ public final class TimeTest {
         CHECKS.due("cancelled", late.transfer(0), NONE);
         CHECKS.due("away", late.mode(0), RemoteMemoryPool.AWAY);
         CHECKS.due("connected", late.isConnected(0), true);
-        RemoteMemoryPool after = lending(1, 1, 1);
+        TestedPool after = lending(1, 1, 1);
         after.store(0, 1);
         after.recall(0, 3);
         after.pass(3);
         CHECKS.due("a transfer begins at the deadline of another", transferOf(after), 12);
         CHECKS.due("from that second on", after.transfer(3), 5);
-        RemoteMemoryPool skipped = lending(1, 1, 1);
+        TestedPool skipped = lending(1, 1, 1);
         skipped.store(0, 1);
         skipped.recall(0, 3);
         CHECKS.due("the move to host 2 is cancelled by the deadline, the restoring begins then", skipped.pass(8), 1);
@@ -77,7 +77,7 @@ public final class TimeTest {
     }
 
     private static void promise11KeepsTheLimit() {
-        RemoteMemoryPool pool = lending(2);
+        TestedPool pool = lending(2);
         pool.store(0, 1);
         int signs = 0;
         for (int i = 0; i < 16; i++) {
@@ -104,7 +104,7 @@ public final class TimeTest {
     }
 
     private static void promise12() {
-        RemoteMemoryPool pool = lending(2);
+        TestedPool pool = lending(2);
         pool.store(0, 1);
         pool.store(1, 1);
         pool.lend(1, 2);
@@ -120,7 +120,7 @@ public final class TimeTest {
         CHECKS.badArgument("0", pool, () -> pool.setTransferTime(0));
         CHECKS.badArgument("61", pool, () -> pool.setTransferTime(61));
         CHECKS.badArgument("-1", pool, () -> pool.setTransferTime(-1));
-        RemoteMemoryPool quick = lending(1);
+        TestedPool quick = lending(1);
         quick.setTransferTime(1);
         quick.store(0, 1);
         quick.lend(1, 1);
@@ -128,7 +128,7 @@ public final class TimeTest {
     }
 
     private static void promise29() {
-        RemoteMemoryPool pool = lending(1);
+        TestedPool pool = lending(1);
         pool.store(7, 1);
         for (int part = 0; part < 4; part++) {
             CHECKS.due("no transfer, part " + part, pool.transfer(part), NONE);
@@ -141,12 +141,12 @@ public final class TimeTest {
         CHECKS.due("seconds", pool.transfer(3), 3);
         CHECKS.badArgument("part -1", pool, () -> pool.transfer(-1));
         CHECKS.badArgument("part 4", pool, () -> pool.transfer(4));
-        RemoteMemoryPool none = new RemoteMemoryPool();
+        TestedPool none = new TestedPool();
         CHECKS.badArgument("part 4 of none", none, () -> none.transfer(4));
     }
 
     private static void promise29ChoosesByClass() {
-        RemoteMemoryPool pool = lending(3, 3);
+        TestedPool pool = lending(3, 3);
         pool.store(0, 1);
         pool.store(1, 1);
         pool.crash(1);
@@ -165,7 +165,7 @@ public final class TimeTest {
         pool.lend(5, 9);
         CHECKS.due("class 2 now", transferOf(pool), 135);
 
-        RemoteMemoryPool second = lending(2, 2);
+        TestedPool second = lending(2, 2);
         second.store(9, 1);
         second.recall(1, 600);
         second.store(8, 1);
@@ -176,7 +176,7 @@ public final class TimeTest {
         second.pass(5);
         CHECKS.due("moved", second.copies(9), 0b101);
 
-        RemoteMemoryPool first = lending(2, 2);
+        TestedPool first = lending(2, 2);
         first.store(9, 1);
         first.disconnect(0);
         first.store(8, 1);
@@ -187,7 +187,7 @@ public final class TimeTest {
 
     private static void promise29ChoosesByRecall() {
         // Page 0 on host 0 alone, page 1 on host 1 alone, no room left.
-        RemoteMemoryPool pool = lending(1, 1);
+        TestedPool pool = lending(1, 1);
         pool.disconnect(0);
         pool.store(1, 1);
         pool.disconnect(1);
@@ -203,7 +203,7 @@ public final class TimeTest {
     }
 
     private static void promise29ChoosesByDeadline() {
-        RemoteMemoryPool late = lending(1, 1);
+        TestedPool late = lending(1, 1);
         late.store(5, 1);
         late.lend(2, 1);
         late.store(6, 1);
@@ -213,7 +213,7 @@ public final class TimeTest {
         CHECKS.due("class 1 with a late deadline before class 3 with an early one", transferOf(late), 623);
 
         // Page 0 on host 0 alone, page 1 on host 1 alone, both recalled.
-        RemoteMemoryPool pool = lending(2, 2);
+        TestedPool pool = lending(2, 2);
         pool.store(0, 1);
         pool.store(1, 1);
         pool.disconnect(1);
@@ -233,7 +233,7 @@ public final class TimeTest {
             pool.undo();
         }
 
-        RemoteMemoryPool both = lending(1, 1, 1, 1);
+        TestedPool both = lending(1, 1, 1, 1);
         both.store(0, 1);
         both.store(1, 1);
         both.recall(3, 40);
@@ -252,7 +252,7 @@ public final class TimeTest {
     }
 
     private static void promise29ChoosesByPageAndHost() {
-        RemoteMemoryPool pool = lending(2, 2);
+        TestedPool pool = lending(2, 2);
         pool.store(9, 1);
         pool.store(4, 1);
         pool.recall(0, 20);
@@ -264,7 +264,7 @@ public final class TimeTest {
         pool.lend(3, 3);
         CHECKS.due("still the lower page, from the other host", transferOf(pool), 413);
 
-        RemoteMemoryPool target = lending(1);
+        TestedPool target = lending(1);
         target.store(0, 1);
         target.lend(1, 2);
         target.pass(5);
@@ -279,7 +279,7 @@ public final class TimeTest {
     }
 
     private static void promise30() {
-        RemoteMemoryPool pool = lending(1, 1, 1);
+        TestedPool pool = lending(1, 1, 1);
         pool.store(0, 1);
         CHECKS.due("none yet", pool.completedTransfers(), 0);
         pool.disconnect(0);
@@ -296,7 +296,7 @@ public final class TimeTest {
     }
 
     private static void promise31() {
-        RemoteMemoryPool pool = new RemoteMemoryPool();
+        TestedPool pool = new TestedPool();
         pool.pass(600);
         pool.pass(1);
         CHECKS.due("time", pool.time(), 601);

@@ -12,7 +12,7 @@ public final class UndoTest {
     }
 
     private static void promise17() {
-        RemoteMemoryPool pool = new RemoteMemoryPool();
+        TestedPool pool = new TestedPool();
         CHECKS.badState("nothing is saved", pool, pool::undo);
         for (int seconds = 1; seconds <= 8; seconds++) {
             pool.pass(seconds);
@@ -30,11 +30,11 @@ public final class UndoTest {
     }
 
     private interface PoolCall {
-        int on(RemoteMemoryPool pool);
+        int on(TestedPool pool);
     }
 
-    private static RemoteMemoryPool busy() {
-        RemoteMemoryPool pool = new RemoteMemoryPool();
+    private static TestedPool busy() {
+        TestedPool pool = new TestedPool();
         for (char sign : "l0,4;l1,4;l2,4;s0,1;s1,2;r0,50;o1;w0,3;t1".toCharArray()) {
             pool.appendText(sign);
         }
@@ -48,10 +48,10 @@ public final class UndoTest {
         PoolCall[] calls = {
             pool -> pool.store(2, 3), pool -> pool.write(0, 3), pool -> pool.remove(1), pool -> pool.lend(4, 20),
             pool -> pool.recall(2, 9), pool -> pool.disconnect(0), pool -> pool.reconnect(1), pool -> pool.crash(0),
-            pool -> pool.pass(77), pool -> pool.setTransferTime(9), pool -> pool.restore(1), RemoteMemoryPool::runText,
+            pool -> pool.pass(77), pool -> pool.setTransferTime(9), pool -> pool.restore(1), TestedPool::runText,
         };
         for (int i = 0; i < calls.length; i++) {
-            RemoteMemoryPool pool = busy();
+            TestedPool pool = busy();
             String before = Observation.of(pool);
             calls[i].on(pool);
             CHECKS.due("saved by call " + i, pool.savedStates(), 2);
@@ -59,7 +59,7 @@ public final class UndoTest {
             CHECKS.due("undone call " + i, Observation.of(pool), before);
             CHECKS.due("the transfer time after call " + i, pool.setTransferTime(1), 5);
         }
-        RemoteMemoryPool pool = busy();
+        TestedPool pool = busy();
         pool.read(0);
         pool.save(0);
         pool.appendText('t');
@@ -70,7 +70,7 @@ public final class UndoTest {
     }
 
     private static void promise18() {
-        RemoteMemoryPool pool = PagesTest.lending(1);
+        TestedPool pool = PagesTest.lending(1);
         pool.pass(5);
         CHECKS.due("the time", pool.save(0), 5);
         pool.pass(6);
@@ -88,7 +88,7 @@ public final class UndoTest {
     }
 
     private static void promise19() {
-        RemoteMemoryPool pool = PagesTest.lending(2, 2);
+        TestedPool pool = PagesTest.lending(2, 2);
         CHECKS.badState("slot 0 is empty", pool, () -> pool.restore(0));
         pool.store(0, 5);
         pool.disconnect(0);
@@ -115,7 +115,7 @@ public final class UndoTest {
     }
 
     private static void promise36() {
-        RemoteMemoryPool pool = new RemoteMemoryPool();
+        TestedPool pool = new TestedPool();
         for (int i = 1; i <= 9; i++) {
             pool.setTransferTime(i);
             CHECKS.due("saved", pool.savedStates(), Math.min(i, 6));
@@ -126,7 +126,7 @@ public final class UndoTest {
         CHECKS.due("save saves no state", pool.savedStates(), 5);
         pool.restore(0);
         CHECKS.due("restore does, and saved states are no part of the state", pool.savedStates(), 6);
-        RemoteMemoryPool refused = new RemoteMemoryPool();
+        TestedPool refused = new TestedPool();
         CHECKS.badArgument("a refused call", refused, () -> refused.pass(0));
         CHECKS.due("saves nothing", refused.savedStates(), 0);
     }
